@@ -399,7 +399,7 @@ public final class PinDeck {
         }
 
         int boardOf(int k) {
-            return isPin(k) ? HOME_BOARD[k] + shift[k] : 0;
+            return k >= 0 && k < PINS ? HOME_BOARD[k] + shift[k] : 0;
         }
 
         /** Makes a pin that has not fallen lean by v, and answers how it leaned. */

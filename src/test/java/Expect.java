@@ -77,6 +77,32 @@ final class Expect {
         return lane;
     }
 
+    /** A ball beside all pins: it takes just those told as standing that lean by more than setting 1. */
+    static int beside(PinDeck lane, boolean foul) {
+        return lane.roll(0, 0, 30, foul);
+    }
+
+    /** Makes the next roll take n pins: of those told as standing, the first n are touched. */
+    static int take(PinDeck lane, int n) {
+        int left = n;
+        for (int k = 0; k < 10 && left > 0; k++) {
+            if (lane.pin(k, 3) == 1) {
+                lane.touch(k, 3);
+                left--;
+            }
+        }
+        return beside(lane, false);
+    }
+
+    /** A lane whose rolls took these numbers of pins. */
+    static PinDeck after(int... takes) {
+        PinDeck lane = new PinDeck();
+        for (int n : takes) {
+            take(lane, n);
+        }
+        return lane;
+    }
+
     /** All that can be seen of the state. */
     static String seen(PinDeck lane) {
         StringBuilder all = new StringBuilder();

@@ -1,4 +1,6 @@
 import java.util.Random;
+import java.util.function.IntBinaryOperator;
+import java.util.function.IntUnaryOperator;
 
 /** Runs of random calls, within the ranges and outside them, each answered by PinDeck as by PlainLane. */
 public final class ModelTest {
@@ -49,6 +51,7 @@ public final class ModelTest {
                 case 13: return simulate();
                 case 14: return slot();
                 case 15: return look();
+                case 16: return touchMany();
                 default: return roll();
             }
         }
@@ -91,6 +94,13 @@ public final class ModelTest {
             int k = some(0, 9);
             int v = some(0, 3);
             return pair("touch " + k + " " + v, () -> lane.touch(k, v), () -> plain.touch(k, v));
+        }
+
+        /** Touches so many pins that strikes and spares come about. */
+        Expect.Call[] touchMany() {
+            int first = random.nextInt(3) == 0 ? upTo(0, 9) : 0;
+            return pair("touch all from " + first, () -> touched(first, lane::pin, lane::touch),
+                    () -> touched(first, plain::pin, plain::touch));
         }
 
         Expect.Call[] roll() {
@@ -178,12 +188,20 @@ public final class ModelTest {
         }
     }
 
-    private static int typed(CharSequence text, java.util.function.IntUnaryOperator append) {
+    private static int typed(CharSequence text, IntUnaryOperator append) {
         int length = -1;
         for (int i = 0; i < text.length(); i++) {
             length = append.applyAsInt(text.charAt(i));
         }
         return length;
+    }
+
+    private static int touched(int first, IntBinaryOperator pin, IntBinaryOperator touch) {
+        int sum = 0;
+        for (int k = first; k < 10; k++) {
+            sum += pin.applyAsInt(k, 0) == 4 ? 0 : touch.applyAsInt(k, 3);
+        }
+        return sum;
     }
 
     private static String outcome(Expect.Call call) {
