@@ -65,6 +65,11 @@ public final class ActionTest {
         lane.touch(3, 2);
         expect.same("roll(23, 2)", 6, lane.roll(23, 2, 30, false));
         pins("23, 2", lane, 4, 4, 4, 4, 2, 4, 2, 0, 2, 4);
+        PinDeck other = aheadOfLast();
+        other.touch(2, 2);
+        other.touch(5, 2);
+        expect.same("roll(17, -2)", 6, other.roll(17, -2, 30, false));
+        pins("17, -2", other, 4, 4, 4, 4, 2, 4, 4, 2, 0, 2);
     }
 
     private static void rollGrazes() {

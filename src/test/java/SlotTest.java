@@ -33,6 +33,23 @@ public final class SlotTest {
         expect.same("slot 0 has what it had", 3, lane.restore(0));
     }
 
+    /** A game at its end, restored where a game with fewer rolls has ended. */
+    private static void restoreTheEnd() {
+        PinDeck lane = Expect.after(new int[20]);
+        lane.save(0);
+        lane.begin();
+        for (int i = 0; i < 12; i++) {
+            Expect.take(lane, 10);
+        }
+        expect.same("the points of the other game", 300, lane.about(3));
+        expect.same("restore(0) of the end", 20, lane.restore(0));
+        expect.same("its end", 1, lane.about(9));
+        expect.same("its points", 0, lane.about(3));
+        for (int f = 0; f < 10; f++) {
+            expect.same("the rolls of its frame " + f, 2, lane.frame(f, 0));
+        }
+    }
+
     private static void throwing() {
         PinDeck lane = new PinDeck();
         lane.roll(20, 0, 30, false);
@@ -54,6 +71,7 @@ public final class SlotTest {
 
     public static void main(String[] args) {
         saveAndRestore();
+        restoreTheEnd();
         throwing();
         expect.end();
     }

@@ -39,6 +39,14 @@ public final class WouldTest {
         expect.badArgument("would(20, 0, 4)", () -> lane.would(20, 0, 4));
     }
 
+    /** The pin 0 pushes the pin 1, which has fallen already, and so pushes none. */
+    private static void wouldPushFallenPins() {
+        PinDeck lane = new PinDeck();
+        lane.touch(1, 3);
+        Expect.beside(lane, false);
+        balls(lane, 23, 0, 293, 528, 4, 0);
+    }
+
     /** Pins not told as standing that have not fallen are there only behind the last roll. */
     private static void wouldAtTheEnd() {
         PinDeck lane = Expect.after(new int[19]);
@@ -133,6 +141,7 @@ public final class WouldTest {
 
     public static void main(String[] args) {
         would();
+        wouldPushFallenPins();
         wouldAtTheEnd();
         bestBoard();
         slowest();
