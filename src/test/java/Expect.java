@@ -4,12 +4,37 @@ final class Expect {
         long answer();
     }
 
+    private static final int PROMISES = 24;
+    /** Of the faults of one sentence; all of them are counted. */
+    private static final int MOST_PRINTED = 20;
+
     private final String test;
+    private final boolean[] tested = new boolean[PROMISES + 1];
+    /** The promise and the sentence that are tested now, as a fault tells them. */
+    private String where = "";
+    private int faultsHere;
     private int checks;
     private int wrong;
 
     Expect(String test) {
         this.test = test;
+    }
+
+    /** Runs the test of one sentence of the document, for one promise; each of its faults names both. */
+    void test(int promise, String sentence, Runnable body) {
+        where = "promise " + promise + ", \"" + sentence + "\": ";
+        tested[promise] = true;
+        int before = checks;
+        faultsHere = 0;
+        try {
+            body.run();
+        } catch (RuntimeException e) {
+            tell("threw " + e);
+        }
+        if (checks == before) {
+            tell("nothing is checked");
+        }
+        where = "";
     }
 
     void same(String what, long due, long got) {
@@ -52,7 +77,17 @@ final class Expect {
 
     private void tell(String fault) {
         wrong++;
-        System.out.println(test + ": " + fault);
+        faultsHere++;
+        if (faultsHere <= MOST_PRINTED) {
+            System.out.println(test + ": " + where + fault);
+        }
+    }
+
+    /** Each of these promises must have had a sentence that was tested. */
+    void covers(int firstPromise, int lastPromise) {
+        for (int promise = firstPromise; promise <= lastPromise; promise++) {
+            holds("promise " + promise + " has no test", tested[promise]);
+        }
     }
 
     void end() {
@@ -101,6 +136,72 @@ final class Expect {
             take(lane, n);
         }
         return lane;
+    }
+
+    /** A lane ahead of the last roll of its game: behind that one, the pins stay as the ball left them. */
+    static PinDeck aheadOfLast() {
+        return after(new int[19]);
+    }
+
+    /** A lane ahead of the frame 9, nothing having been taken. */
+    static PinDeck aheadOfLastFrame() {
+        return after(new int[18]);
+    }
+
+    /** A game of twelve strikes, at its end. */
+    static PinDeck allStrikes() {
+        return after(10, 10, 10, 10, 10, 10, 10, 10, 10, 10, 10, 10);
+    }
+
+    /** A lane at its end behind twenty rolls that took nothing. */
+    static PinDeck over() {
+        return after(new int[20]);
+    }
+
+    static void touchAll(PinDeck lane, int v) {
+        for (int k = 0; k < 10; k++) {
+            lane.touch(k, v);
+        }
+    }
+
+    /** What simulate answers, if the turns are done by the methods themselves on this lane. */
+    static int turns(PinDeck lane, long seed, int m) {
+        long x = seed;
+        for (int i = 0; i < m; i++) {
+            x = x * 6364136223846793005L + 1442695040888963407L;
+            int r = (int) (x >>> 33);
+            int q = r / 8;
+            int kind = r % 8;
+            try {
+                if (kind == 0) {
+                    lane.touch(q % 10, q / 16 % 4);
+                } else if (kind == 1) {
+                    lane.set(1 + q % 2, q / 2 % 4);
+                } else {
+                    lane.roll(10 + q % 21, q / 32 % 5 - 2, 1 + q / 256 % 30, q / 8192 % 16 == 0);
+                }
+            } catch (IllegalArgumentException | IllegalStateException e) {
+                continue;
+            }
+        }
+        return 1000 * lane.about(2) + lane.about(3);
+    }
+
+    /** How the pins lean, a digit for each; 4 for one that has fallen. */
+    static String leanings(PinDeck lane) {
+        StringBuilder all = new StringBuilder();
+        for (int k = 0; k < 10; k++) {
+            all.append(lane.pin(k, 0));
+        }
+        return all.toString();
+    }
+
+    void leanings(String what, String due, PinDeck lane) {
+        equal(what + ": the leanings", due, leanings(lane));
+    }
+
+    void equal(String what, String due, String got) {
+        holds(what + " are " + got + ", due are " + due, due.equals(got));
     }
 
     /** All that can be seen of the state. */

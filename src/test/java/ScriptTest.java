@@ -95,34 +95,11 @@ public final class ScriptTest {
         expect.same("10 digits for 2", 0, lane.runScript(2, 9999999999L));
     }
 
-    /** The turns done by the methods themselves, on a lane of its own. */
-    private static int turns(PinDeck lane, long seed, int m) {
-        long x = seed;
-        for (int i = 0; i < m; i++) {
-            x = x * 6364136223846793005L + 1442695040888963407L;
-            int r = (int) (x >>> 33);
-            int q = r / 8;
-            int kind = r % 8;
-            try {
-                if (kind == 0) {
-                    lane.touch(q % 10, q / 16 % 4);
-                } else if (kind == 1) {
-                    lane.set(1 + q % 2, q / 2 % 4);
-                } else {
-                    lane.roll(10 + q % 21, q / 32 % 5 - 2, 1 + q / 256 % 30, q / 8192 % 16 == 0);
-                }
-            } catch (IllegalArgumentException | IllegalStateException e) {
-                continue;
-            }
-        }
-        return 1000 * lane.about(2) + lane.about(3);
-    }
-
     private static void simulate() {
         for (long seed = -500; seed < 500; seed++) {
             long far = seed * 0x9E3779B97F4A7C15L;
             int m = (int) Math.floorMod(seed * 7, 60L) + 1;
-            expect.same("simulate(" + far + ", " + m + ")", turns(new PinDeck(), far, m),
+            expect.same("simulate(" + far + ", " + m + ")", Expect.turns(new PinDeck(), far, m),
                     new PinDeck().simulate(far, m));
         }
         PinDeck lane = new PinDeck();
@@ -132,7 +109,7 @@ public final class ScriptTest {
         String before = Expect.seen(lane);
         int got = lane.simulate(Long.MAX_VALUE, 60);
         expect.holds("simulate changes nothing", before.equals(Expect.seen(lane)));
-        expect.same("simulate from a state", turns(lane, Long.MAX_VALUE, 60), got);
+        expect.same("simulate from a state", Expect.turns(lane, Long.MAX_VALUE, 60), got);
         expect.badArgument("m 0", () -> lane.simulate(1, 0));
         expect.badArgument("m 61", () -> lane.simulate(1, 61));
         expect.badArgument("m least", () -> lane.simulate(1, Integer.MIN_VALUE));
