@@ -4,7 +4,6 @@ import java.util.List;
 /** The boundary cases of the promises 11 and 13 to 15, begin, touch, set and undo: a test for each sentence. */
 public final class EdgeActionTest {
     private static final Expect expect = new Expect("EdgeActionTest");
-    private static final int[] FAR = {Integer.MIN_VALUE, Integer.MIN_VALUE + 1, Integer.MAX_VALUE};
     private static final int MOST = 14;
 
     // ---- promise 11
@@ -40,9 +39,7 @@ public final class EdgeActionTest {
             expect.same("the shift of " + k, 0, lane.pin(k, 1));
             expect.same("told of " + k, 1, lane.pin(k, 3));
         }
-        PinDeck dropped = new PinDeck();
-        Expect.touchAll(dropped, 2);
-        Expect.beside(dropped, false);
+        PinDeck dropped = Expect.allDropped();
         dropped.begin();
         expect.same("not fallen behind begin", 10, dropped.about(8));
     }
@@ -85,7 +82,7 @@ public final class EdgeActionTest {
         expect.same("touch(9, 1)", 0, lane.touch(9, 1));
         expect.outOfBounds("touch(-1, 1)", () -> lane.touch(-1, 1));
         expect.outOfBounds("touch(10, 1)", () -> lane.touch(10, 1));
-        for (int k : FAR) {
+        for (int k : Expect.FAR) {
             expect.outOfBounds("touch(" + k + ", 1)", () -> lane.touch(k, 1));
         }
     }
@@ -96,7 +93,7 @@ public final class EdgeActionTest {
         expect.same("touch(4, 3)", 0, lane.touch(4, 3));
         expect.badArgument("touch(4, -1)", () -> lane.touch(4, -1));
         expect.badArgument("touch(4, 4)", () -> lane.touch(4, 4));
-        for (int v : FAR) {
+        for (int v : Expect.FAR) {
             expect.badArgument("touch(4, " + v + ")", () -> lane.touch(4, v));
         }
         expect.same("the leaning", 3, lane.pin(4, 0));
@@ -186,7 +183,7 @@ public final class EdgeActionTest {
         expect.same("set(2, 3)", 1, lane.set(2, 3));
         expect.badArgument("set(-1, 3)", () -> lane.set(-1, 3));
         expect.badArgument("set(3, 3)", () -> lane.set(3, 3));
-        for (int what : FAR) {
+        for (int what : Expect.FAR) {
             expect.badArgument("set(" + what + ", 3)", () -> lane.set(what, 3));
         }
     }
@@ -198,7 +195,7 @@ public final class EdgeActionTest {
         expect.same("set(" + what + ", " + high + ")", low, lane.set(what, high));
         expect.badArgument("set(" + what + ", " + (low - 1) + ")", () -> lane.set(what, low - 1));
         expect.badArgument("set(" + what + ", " + (high + 1) + ")", () -> lane.set(what, high + 1));
-        for (int v : FAR) {
+        for (int v : Expect.FAR) {
             expect.badArgument("set(" + what + ", " + v + ")", () -> lane.set(what, v));
         }
         expect.same("setting(" + what + ")", high, lane.setting(what));

@@ -302,16 +302,14 @@ public final class EdgeBallTest {
     }
 
     private static void nothingBehindLastRow() {
-        PinDeck lane = Expect.after(0, 0, 0, 0, 0, 0, 0, 0, 0, 0, 0, 0, 0, 0, 0, 0, 0, 0, 10, 10);
+        PinDeck lane = Expect.lastFrame(10, 10);
         Expect.touchAll(lane, 3);
         expect.same("all ten are taken", 10, lane.roll(20, 0, 30, false));
         expect.leanings("all fall", "4444444444", lane);
     }
 
     private static void nothingLeft() {
-        PinDeck lane = new PinDeck();
-        Expect.touchAll(lane, 2);
-        Expect.beside(lane, false);
+        PinDeck lane = Expect.allDropped();
         expect.same("the pins that have not fallen", 0, lane.about(8));
         expect.same("a roll with no pins", 0, lane.roll(20, 0, 30, false));
     }

@@ -2,14 +2,6 @@
 public final class EdgeMachineTest {
     private static final Expect expect = new Expect("EdgeMachineTest");
 
-    private static PinDeck lastFrame(int... takes) {
-        PinDeck lane = Expect.aheadOfLastFrame();
-        for (int n : takes) {
-            expect.same("a roll of the frame 9", n, Expect.take(lane, n));
-        }
-        return lane;
-    }
-
     private static void rack(String when, PinDeck lane) {
         for (int k = 0; k < 10; k++) {
             expect.same("the leaning of " + k + " " + when, 0, lane.pin(k, 0));
@@ -109,7 +101,7 @@ public final class EdgeMachineTest {
         expect.same("the frame behind two fouls", 1, lane.about(0));
         rack("behind two fouls", lane);
         expect.same("dropped behind two fouls", 2, lane.about(5));
-        PinDeck spare = lastFrame(4, 6);
+        PinDeck spare = Expect.lastFrame(4, 6);
         spare.roll(20, 0, 30, true);
         expect.same("over behind a foul", 1, spare.about(9));
     }
@@ -207,12 +199,12 @@ public final class EdgeMachineTest {
         int[][] overs = {{0, 0}, {4, 5}, {9, 0}, {0, 9}, {10, 0, 0}, {10, 10, 10}, {9, 1, 0}, {0, 10, 10}};
         for (int[] takes : overs) {
             expect.same("over behind " + takes.length + " rolls, the first of " + takes[0], 1,
-                    lastFrame(takes).about(9));
+                    Expect.lastFrame(takes).about(9));
         }
         int[][] goOn = {{10}, {9}, {10, 0}, {10, 10}, {9, 1}, {0, 10}};
         for (int[] takes : goOn) {
             expect.same("not over behind " + takes.length + " rolls, the first of " + takes[0], 0,
-                    lastFrame(takes).about(9));
+                    Expect.lastFrame(takes).about(9));
         }
         PinDeck eight = Expect.after(0, 0, 0, 0, 0, 0, 0, 0, 0, 0, 0, 0, 0, 0, 0, 0, 9, 1);
         expect.same("no third roll in the frame 8", 9, eight.about(0));
@@ -235,17 +227,17 @@ public final class EdgeMachineTest {
     }
 
     private static void newRacksInLastFrame() {
-        rack("in the frame 9 behind a strike", lastFrame(10));
-        rack("in the frame 9 behind 4 and 6", lastFrame(4, 6));
-        rack("in the frame 9 behind 0 and 10", lastFrame(0, 10));
+        rack("in the frame 9 behind a strike", Expect.lastFrame(10));
+        rack("in the frame 9 behind 4 and 6", Expect.lastFrame(4, 6));
+        rack("in the frame 9 behind 0 and 10", Expect.lastFrame(0, 10));
     }
 
     private static void secondStrike() {
-        rack("in the frame 9 behind two strikes", lastFrame(10, 10));
-        PinDeck nine = lastFrame(10, 9);
+        rack("in the frame 9 behind two strikes", Expect.lastFrame(10, 10));
+        PinDeck nine = Expect.lastFrame(10, 9);
         expect.same("told behind a strike and 9", 1, nine.about(7));
-        expect.same("told behind a strike and 0", 10, lastFrame(10, 0).about(7));
-        PinDeck none = lastFrame(10);
+        expect.same("told behind a strike and 0", 10, Expect.lastFrame(10, 0).about(7));
+        PinDeck none = Expect.lastFrame(10);
         none.roll(16, 0, 30, false);
         expect.same("a shift is kept behind a strike and another roll", 1, none.pin(0, 1));
     }
@@ -256,9 +248,9 @@ public final class EdgeMachineTest {
             PinDeck lane = Expect.after(n);
             expect.same("told behind " + n, 10 - n, lane.about(7));
             expect.same("not fallen behind " + n, 10 - n, lane.about(8));
-            PinDeck last = lastFrame(n);
+            PinDeck last = Expect.lastFrame(n);
             expect.same("told in the frame 9 behind " + n, 10 - n, last.about(7));
-            PinDeck third = lastFrame(10, n);
+            PinDeck third = Expect.lastFrame(10, n);
             expect.same("told in the frame 9 behind a strike and " + n, 10 - n, third.about(7));
             expect.same("not fallen in the frame 9 behind a strike and " + n, 10 - n, third.about(8));
         }
@@ -268,7 +260,7 @@ public final class EdgeMachineTest {
     private static void nothingBehindTheEnd() {
         int[][] ahead = {{0}, {4}, {10, 0}, {10, 4}, {10, 10}, {4, 6}};
         for (int[] takes : ahead) {
-            PinDeck lane = lastFrame(takes);
+            PinDeck lane = Expect.lastFrame(takes);
             lane.touch(8, 3);
             lane.touch(9, 2);
             String when = " behind the last of " + (takes.length + 1) + " rolls, the first of " + takes[0];
@@ -283,7 +275,7 @@ public final class EdgeMachineTest {
         PinDeck strikes = Expect.allStrikes();
         expect.same("told behind 12 strikes", 0, strikes.about(7));
         expect.same("not fallen behind 12 strikes", 10, strikes.about(8));
-        PinDeck all = lastFrame(10, 4, 6);
+        PinDeck all = Expect.lastFrame(10, 4, 6);
         expect.same("told behind a strike, 4 and 6", 0, all.about(7));
         expect.same("not fallen behind a strike, 4 and 6", 6, all.about(8));
     }

@@ -106,7 +106,9 @@ public final class EdgeScriptTest {
         fail(over, 12020, 10020, 22020);
         script(over, 2, 5000012020L, NONE);
         PinDeck last = Expect.aheadOfLast();
+        succeed(last, 12020, 22020);
         script(last, 2, 1202012020L, 1);
+        script(last, 3, 300003000012020L, NONE);
     }
 
     /** The takes are those of the drift d - 2 and of the two digits of the board, in their order. */
@@ -127,6 +129,8 @@ public final class EdgeScriptTest {
         then(lane, 22020, 80000, 80001);
         script(lane, 3, 400301202080006L, NONE);
         script(lane, 3, 409001202080006L, NONE);
+        script(lane, 3, 332002202073400L, NONE);
+        script(lane, 3, 332001202073400L, NONE);
     }
 
     private static void fouls() {
@@ -167,6 +171,16 @@ public final class EdgeScriptTest {
         script(lane, 3, 410301202080006L, NONE);
         script(lane, 3, 420301202060004L, NONE);
         script(lane, 3, 420301202060003L, 2);
+    }
+
+    private static void settingsOfState() {
+        PinDeck lane = new PinDeck();
+        lane.set(1, 0);
+        then(lane, 12020, 80008, 80009);
+        lane.set(1, 3);
+        then(lane, 12020, 60002, 60001);
+        lane.set(2, 3);
+        then(lane, 12020, 60004, 60003);
     }
 
     private static void begins() {
@@ -392,6 +406,27 @@ public final class EdgeScriptTest {
         }
     }
 
+    /** A rake that is down for all balls slower than 23, or for none; and each leaning told and borne. */
+    private static void settingsInTurns() {
+        PinDeck fast = new PinDeck();
+        fast.set(0, 3);
+        expect.same("a turn that rolls with a speed of 22", 0,
+                fast.simulate(seedOf(turn(rollNumber(20, 0, 22, false), 0)), 1));
+        expect.same("a turn that rolls with a speed of 23", 1006,
+                fast.simulate(seedOf(turn(rollNumber(20, 0, 23, false), 0)), 1));
+        for (int i = 0; i < 16; i++) {
+            for (int m = 1; m <= 10; m++) {
+                PinDeck lane = new PinDeck();
+                lane.set(0, 90);
+                lane.set(1, i % 4);
+                lane.set(2, i / 4);
+                int got = lane.simulate(i, m);
+                expect.same("simulate(" + i + ", " + m + ") with settings of " + i % 4 + " and " + i / 4,
+                        Expect.turns(lane, i, m), got);
+            }
+        }
+    }
+
     /** Behind 60 turns a game may be over: what is left of them is left out. */
     private static void turnsLeftOut() {
         PinDeck best = Expect.allStrikes();
@@ -400,9 +435,7 @@ public final class EdgeScriptTest {
             expect.same("simulate(" + seed + ", 60) of the best game at its end", 12300, best.simulate(seed, 60));
             expect.same("simulate(" + seed + ", 60) of the worst game at its end", 20000, worst.simulate(seed, 60));
         }
-        PinDeck fallen = new PinDeck();
-        Expect.touchAll(fallen, 2);
-        Expect.beside(fallen, false);
+        PinDeck fallen = Expect.allDropped();
         int left = 0;
         for (int q = 0; q < 10; q++) {
             left += fallen.simulate(seedOf(turn(8L * q, 0)), 1) == 1000 ? 1 : 0;
@@ -452,6 +485,7 @@ public final class EdgeScriptTest {
         expect.test(21, "2 b b d 0: the same with a foul", EdgeScriptTest::fouls);
         expect.test(21, "3 k v 0 0: touch(k, v)", EdgeScriptTest::touches);
         expect.test(21, "4 s v v 0: set(s, vv)", EdgeScriptTest::settings);
+        expect.test(21, "Runs a script on a copy of the state.", EdgeScriptTest::settingsOfState);
         expect.test(21, "5 0 0 0 0: begin()", EdgeScriptTest::begins);
         expect.test(21, "6 0 0 n n: succeeds if at most nn pins are told as standing", EdgeScriptTest::toldAtMost);
         expect.test(21, "7 k v 0 0: succeeds if the pin k leans by v (4: it has fallen)", EdgeScriptTest::leans);
@@ -472,6 +506,7 @@ public final class EdgeScriptTest {
         expect.test(22, "1: set(1 + q % 2, q / 2 % 4).", EdgeScriptTest::setsOfTurns);
         expect.test(22, "Otherwise: roll(10 + q % 21, q / 32 % 5 - 2, 1 + q / 256 % 30, q / 8192 % 16 is 0).",
                 EdgeScriptTest::rollsOfTurns);
+        expect.test(22, "If these are more than setting 0, the rake is down", EdgeScriptTest::settingsInTurns);
         expect.test(22, "What would throw an exception is left out.", EdgeScriptTest::turnsLeftOut);
         expect.test(22, "Returns 1000 * (the rolls of the game at the end)", EdgeScriptTest::simulateAnswers);
         expect.test(22, "Simulates m turns on a copy of the state.", EdgeScriptTest::simulateChangesNothing);

@@ -19,10 +19,7 @@ public final class EdgeSlotTest {
         expect.same("save of a new object", 0, new PinDeck().save(0));
         expect.same("save behind three rolls", 3, Expect.after(3, 4, 10).save(1));
         expect.same("save of 12 strikes", 12, Expect.allStrikes().save(0));
-        PinDeck most = Expect.aheadOfLastFrame();
-        Expect.take(most, 0);
-        Expect.take(most, 10);
-        Expect.take(most, 0);
+        PinDeck most = Expect.lastFrame(0, 10, 0);
         expect.same("save of the most rolls", 21, most.save(1));
         PinDeck stopped = new PinDeck();
         stopped.roll(20, 0, 1, false);
@@ -132,10 +129,7 @@ public final class EdgeSlotTest {
     }
 
     private static void restoreAnswers() {
-        PinDeck lane = Expect.aheadOfLastFrame();
-        Expect.take(lane, 0);
-        Expect.take(lane, 10);
-        Expect.take(lane, 0);
+        PinDeck lane = Expect.lastFrame(0, 10, 0);
         lane.save(0);
         lane.begin();
         lane.save(1);
@@ -210,6 +204,23 @@ public final class EdgeSlotTest {
         expect.badState("a roll at the end", () -> other.roll(20, 0, 30, false));
     }
 
+    /** The end of a game with twenty rolls, restored where one with twelve has ended, and the other way about. */
+    private static void restoreEnds() {
+        PinDeck lane = Expect.over();
+        lane.save(0);
+        String twenty = Expect.seen(lane);
+        lane.begin();
+        for (int i = 0; i < 12; i++) {
+            Expect.take(lane, 10);
+        }
+        lane.save(1);
+        String twelve = Expect.seen(lane);
+        expect.same("restore(0)", 20, lane.restore(0));
+        expect.equal("the states of twenty rolls", twenty, Expect.seen(lane));
+        expect.same("restore(1)", 12, lane.restore(1));
+        expect.equal("the states of twelve rolls", twelve, Expect.seen(lane));
+    }
+
     private static void restoreKeepsText() {
         PinDeck lane = new PinDeck();
         lane.append('P');
@@ -247,6 +258,7 @@ public final class EdgeSlotTest {
         expect.test(24, "load and restore are not actions.", EdgeSlotTest::restoreIsNoAction);
         expect.test(24, "The save slot keeps it.", EdgeSlotTest::slotKeeps);
         expect.test(24, "Replaces the state by the one in a save slot", EdgeSlotTest::restoreAll);
+        expect.test(24, "the frame, 10 if the game is over", EdgeSlotTest::restoreEnds);
         expect.test(24, "everything but the text and the save slots", EdgeSlotTest::restoreKeepsText);
         expect.test(24, "A call that throws an exception changes nothing.", EdgeSlotTest::refusedRestore);
         expect.covers(23, 24);

@@ -1,7 +1,6 @@
 /** The boundary cases of the promises 1 and 6 to 10, a new object and what there is: a test for each sentence. */
 public final class EdgeViewTest {
     private static final Expect expect = new Expect("EdgeViewTest");
-    private static final int[] FAR = {Integer.MIN_VALUE, Integer.MIN_VALUE + 1, Integer.MAX_VALUE};
     private static final int CALLS = 512;
 
     private static void abouts(String when, PinDeck lane, int... due) {
@@ -111,7 +110,7 @@ public final class EdgeViewTest {
         expect.same("about(9)", 0, lane.about(9));
         expect.badArgument("about(-1)", () -> lane.about(-1));
         expect.badArgument("about(10)", () -> lane.about(10));
-        for (int what : FAR) {
+        for (int what : Expect.FAR) {
             expect.badArgument("about(" + what + ")", () -> lane.about(what));
         }
         PinDeck over = Expect.over();
@@ -186,15 +185,8 @@ public final class EdgeViewTest {
         expect.same("about(4) at the end", 0, over.about(4));
     }
 
-    private static PinDeck allDropped() {
-        PinDeck lane = new PinDeck();
-        Expect.touchAll(lane, 2);
-        expect.same("what a ball beside all takes", 0, Expect.beside(lane, false));
-        return lane;
-    }
-
     private static void aboutDropped() {
-        expect.same("about(5), all ten having dropped", 10, allDropped().about(5));
+        expect.same("about(5), all ten having dropped", 10, Expect.allDropped().about(5));
         PinDeck lane = new PinDeck();
         Expect.touchAll(lane, 1);
         Expect.beside(lane, false);
@@ -214,20 +206,20 @@ public final class EdgeViewTest {
     }
 
     private static void aboutTold() {
-        expect.same("about(7), none being told", 0, allDropped().about(7));
+        expect.same("about(7), none being told", 0, Expect.allDropped().about(7));
         PinDeck lane = Expect.aheadOfLast();
         Expect.touchAll(lane, 2);
         Expect.beside(lane, false);
         expect.same("about(7), all leaning by setting 1", 10, lane.about(7));
-        PinDeck more = lastFrame(10, 10);
+        PinDeck more = Expect.lastFrame(10, 10);
         Expect.touchAll(more, 3);
         Expect.beside(more, false);
         expect.same("about(7), all leaning by more", 0, more.about(7));
     }
 
     private static void aboutNotFallen() {
-        expect.same("about(8), all having fallen", 0, allDropped().about(8));
-        PinDeck lane = lastFrame(10, 10, 10);
+        expect.same("about(8), all having fallen", 0, Expect.allDropped().about(8));
+        PinDeck lane = Expect.lastFrame(10, 10, 10);
         expect.same("about(7), all leaning", 0, lane.about(7));
         expect.same("about(8), all leaning, none told", 10, lane.about(8));
     }
@@ -250,7 +242,7 @@ public final class EdgeViewTest {
             expect.outOfBounds("pin(-1, " + w + ")", () -> lane.pin(-1, w));
             expect.outOfBounds("pin(10, " + w + ")", () -> lane.pin(10, w));
         }
-        for (int k : FAR) {
+        for (int k : Expect.FAR) {
             expect.outOfBounds("pin(" + k + ", 0)", () -> lane.pin(k, 0));
         }
         expect.same("pin(0, 2)", 20, lane.pin(0, 2));
@@ -263,7 +255,7 @@ public final class EdgeViewTest {
         expect.same("pin(0, 3)", 1, lane.pin(0, 3));
         expect.badArgument("pin(0, -1)", () -> lane.pin(0, -1));
         expect.badArgument("pin(9, 4)", () -> lane.pin(9, 4));
-        for (int what : FAR) {
+        for (int what : Expect.FAR) {
             expect.badArgument("pin(0, " + what + ")", () -> lane.pin(0, what));
         }
     }
@@ -330,7 +322,7 @@ public final class EdgeViewTest {
             expect.outOfBounds("frame(-1, " + w + ")", () -> lane.frame(-1, w));
             expect.outOfBounds("frame(10, " + w + ")", () -> lane.frame(10, w));
         }
-        for (int f : FAR) {
+        for (int f : Expect.FAR) {
             expect.outOfBounds("frame(" + f + ", 0)", () -> lane.frame(f, 0));
         }
         PinDeck over = Expect.over();
@@ -342,7 +334,7 @@ public final class EdgeViewTest {
         PinDeck lane = new PinDeck();
         expect.badArgument("frame(0, -1)", () -> lane.frame(0, -1));
         expect.badArgument("frame(9, 3)", () -> lane.frame(9, 3));
-        for (int what : FAR) {
+        for (int what : Expect.FAR) {
             expect.badArgument("frame(0, " + what + ")", () -> lane.frame(0, what));
         }
     }
@@ -391,28 +383,26 @@ public final class EdgeViewTest {
     }
 
     private static void frameEightPoints() {
-        PinDeck lane = Expect.after(0, 0, 0, 0, 0, 0, 0, 0, 0, 0, 0, 0, 0, 0, 0, 0, 10, 10, 10, 9);
+        PinDeck lane = Expect.after(new int[16]);
+        for (int n : new int[] {10, 10, 10, 9}) {
+            Expect.take(lane, n);
+        }
         expect.same("frame(8, 1) of a strike takes two rolls of the frame 9", 30, lane.frame(8, 1));
         expect.same("frame(9, 1) of 10, 10, 9", 29, lane.frame(9, 1));
-        PinDeck spare = Expect.after(0, 0, 0, 0, 0, 0, 0, 0, 0, 0, 0, 0, 0, 0, 0, 0, 5, 5, 10, 10, 9);
+        PinDeck spare = Expect.after(new int[16]);
+        for (int n : new int[] {5, 5, 10, 10, 9}) {
+            Expect.take(spare, n);
+        }
         expect.same("frame(8, 1) of a spare takes one roll of the frame 9", 20, spare.frame(8, 1));
     }
 
-    private static PinDeck lastFrame(int... takes) {
-        PinDeck lane = Expect.aheadOfLastFrame();
-        for (int n : takes) {
-            expect.same("a roll of the frame 9", n, Expect.take(lane, n));
-        }
-        return lane;
-    }
-
     private static void frameNinePoints() {
-        expect.same("frame(9, 1) of 10, 10, 10", 30, lastFrame(10, 10, 10).frame(9, 1));
-        expect.same("frame(9, 1) of 10, 10", 20, lastFrame(10, 10).frame(9, 1));
-        expect.same("frame(9, 1) of 10", 10, lastFrame(10).frame(9, 1));
-        expect.same("frame(9, 1) of 4, 6, 10", 20, lastFrame(4, 6, 10).frame(9, 1));
-        expect.same("frame(9, 1) of 4, 6", 10, lastFrame(4, 6).frame(9, 1));
-        expect.same("frame(9, 1) of 4, 5", 9, lastFrame(4, 5).frame(9, 1));
+        expect.same("frame(9, 1) of 10, 10, 10", 30, Expect.lastFrame(10, 10, 10).frame(9, 1));
+        expect.same("frame(9, 1) of 10, 10", 20, Expect.lastFrame(10, 10).frame(9, 1));
+        expect.same("frame(9, 1) of 10", 10, Expect.lastFrame(10).frame(9, 1));
+        expect.same("frame(9, 1) of 4, 6, 10", 20, Expect.lastFrame(4, 6, 10).frame(9, 1));
+        expect.same("frame(9, 1) of 4, 6", 10, Expect.lastFrame(4, 6).frame(9, 1));
+        expect.same("frame(9, 1) of 4, 5", 9, Expect.lastFrame(4, 5).frame(9, 1));
     }
 
     private static void frameMark() {
@@ -428,12 +418,12 @@ public final class EdgeViewTest {
     }
 
     private static void frameNineMark() {
-        expect.same("frame(9, 2) of 10, 0, 10", 1, lastFrame(10, 0, 10).frame(9, 2));
-        expect.same("frame(9, 2) of 10, 4, 6", 1, lastFrame(10, 4, 6).frame(9, 2));
-        expect.same("frame(9, 2) of 4, 6, 10", 2, lastFrame(4, 6, 10).frame(9, 2));
-        expect.same("frame(9, 2) of 0, 10, 0", 2, lastFrame(0, 10, 0).frame(9, 2));
-        expect.same("frame(9, 2) of 4, 5", 0, lastFrame(4, 5).frame(9, 2));
-        expect.same("frame(9, 2) of 4", 0, lastFrame(4).frame(9, 2));
+        expect.same("frame(9, 2) of 10, 0, 10", 1, Expect.lastFrame(10, 0, 10).frame(9, 2));
+        expect.same("frame(9, 2) of 10, 4, 6", 1, Expect.lastFrame(10, 4, 6).frame(9, 2));
+        expect.same("frame(9, 2) of 4, 6, 10", 2, Expect.lastFrame(4, 6, 10).frame(9, 2));
+        expect.same("frame(9, 2) of 0, 10, 0", 2, Expect.lastFrame(0, 10, 0).frame(9, 2));
+        expect.same("frame(9, 2) of 4, 5", 0, Expect.lastFrame(4, 5).frame(9, 2));
+        expect.same("frame(9, 2) of 4", 0, Expect.lastFrame(4).frame(9, 2));
     }
 
     // ---- promise 9
@@ -446,13 +436,13 @@ public final class EdgeViewTest {
         expect.same("taken(0)", 3, lane.taken(0));
         expect.outOfBounds("taken(1) behind one roll", () -> lane.taken(1));
         expect.outOfBounds("taken(-1) behind one roll", () -> lane.taken(-1));
-        for (int i : FAR) {
+        for (int i : Expect.FAR) {
             expect.outOfBounds("taken(" + i + ")", () -> lane.taken(i));
         }
     }
 
     private static void takenMost() {
-        PinDeck lane = lastFrame(2, 8, 7);
+        PinDeck lane = Expect.lastFrame(2, 8, 7);
         expect.same("taken(18)", 2, lane.taken(18));
         expect.same("taken(19)", 8, lane.taken(19));
         expect.same("taken(20)", 7, lane.taken(20));
@@ -490,7 +480,7 @@ public final class EdgeViewTest {
         expect.same("setting(2)", 1, lane.setting(2));
         expect.badArgument("setting(-1)", () -> lane.setting(-1));
         expect.badArgument("setting(3)", () -> lane.setting(3));
-        for (int what : FAR) {
+        for (int what : Expect.FAR) {
             expect.badArgument("setting(" + what + ")", () -> lane.setting(what));
         }
     }

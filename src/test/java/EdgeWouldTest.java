@@ -1,7 +1,6 @@
 /** The boundary cases of the promises 16 to 20, what would be: a test for each sentence. */
 public final class EdgeWouldTest {
     private static final Expect expect = new Expect("EdgeWouldTest");
-    private static final int[] FAR = {Integer.MIN_VALUE, Integer.MIN_VALUE + 1, Integer.MAX_VALUE};
     private static final int ALL = 1023;
 
     private static void would(String when, PinDeck lane, int board, int drift, int... due) {
@@ -9,18 +8,6 @@ public final class EdgeWouldTest {
             expect.same("would(" + board + ", " + drift + ", " + what + ") " + when, due[what],
                     lane.would(board, drift, what));
         }
-    }
-
-    /** A lane ahead of the third roll of the frame 9: a roll that takes all is the last one, too. */
-    private static PinDeck aheadOfThird() {
-        return Expect.after(0, 0, 0, 0, 0, 0, 0, 0, 0, 0, 0, 0, 0, 0, 0, 0, 0, 0, 10, 10);
-    }
-
-    private static PinDeck allDropped() {
-        PinDeck lane = new PinDeck();
-        Expect.touchAll(lane, 2);
-        Expect.beside(lane, false);
-        return lane;
     }
 
     // ---- promise 16
@@ -34,7 +21,7 @@ public final class EdgeWouldTest {
             expect.badArgument("would(-1, 0, " + w + ")", () -> lane.would(-1, 0, w));
             expect.badArgument("would(41, 0, " + w + ")", () -> lane.would(41, 0, w));
         }
-        for (int board : FAR) {
+        for (int board : Expect.FAR) {
             expect.badArgument("would(" + board + ", 0, 0)", () -> lane.would(board, 0, 0));
         }
     }
@@ -45,7 +32,7 @@ public final class EdgeWouldTest {
         would("of a new object", lane, 20, 2, 309, 642, 6, 1);
         expect.badArgument("would(20, -3, 0)", () -> lane.would(20, -3, 0));
         expect.badArgument("would(20, 3, 0)", () -> lane.would(20, 3, 0));
-        for (int drift : FAR) {
+        for (int drift : Expect.FAR) {
             expect.badArgument("would(20, " + drift + ", 0)", () -> lane.would(20, drift, 0));
         }
     }
@@ -55,7 +42,7 @@ public final class EdgeWouldTest {
         would("of a new object", lane, 20, 0, 407, 40, 6, 0);
         expect.badArgument("would(20, 0, -1)", () -> lane.would(20, 0, -1));
         expect.badArgument("would(20, 0, 4)", () -> lane.would(20, 0, 4));
-        for (int what : FAR) {
+        for (int what : Expect.FAR) {
             expect.badArgument("would(20, 0, " + what + ")", () -> lane.would(20, 0, what));
         }
         expect.badArgument("would(41, 3, 4)", () -> lane.would(41, 3, 4));
@@ -80,7 +67,7 @@ public final class EdgeWouldTest {
         }
         Expect.beside(first, false);
         would("with the pin 0 alone", first, 20, 0, 1, 0, 1, 0);
-        would("with no pins", allDropped(), 20, 0, 0, 0, 0, 0);
+        would("with no pins", Expect.allDropped(), 20, 0, 0, 0, 0, 0);
     }
 
     private static void wouldLean() {
@@ -124,8 +111,7 @@ public final class EdgeWouldTest {
 
     /** Pins that are not told and have not fallen are there only behind the last roll. */
     private static void wouldOfTold() {
-        PinDeck lane = aheadOfThird();
-        Expect.take(lane, 10);
+        PinDeck lane = Expect.lastFrame(10, 10, 10);
         would("with no pins that are told", lane, 20, 0, ALL, 0, 0, 0);
         would("with no pins that are told, beside them", lane, 0, 0, 0, ALL, 0, 0);
         PinDeck one = Expect.aheadOfLast();
@@ -172,14 +158,14 @@ public final class EdgeWouldTest {
         expect.same("bestBoard(2)", 19, lane.bestBoard(2));
         expect.badArgument("bestBoard(-3)", () -> lane.bestBoard(-3));
         expect.badArgument("bestBoard(3)", () -> lane.bestBoard(3));
-        for (int drift : FAR) {
+        for (int drift : Expect.FAR) {
             expect.badArgument("bestBoard(" + drift + ")", () -> lane.bestBoard(drift));
         }
     }
 
     private static void bestMost() {
         PinDeck[] lanes = {new PinDeck(), Expect.after(1), Expect.after(5), Expect.after(9), Expect.over(),
-            Expect.allStrikes(), allDropped()};
+            Expect.allStrikes(), Expect.allDropped()};
         for (PinDeck lane : lanes) {
             for (int drift = -2; drift <= 2; drift++) {
                 int best = lane.bestBoard(drift);
@@ -206,7 +192,7 @@ public final class EdgeWouldTest {
     }
 
     private static void bestOfTheSame() {
-        PinDeck none = allDropped();
+        PinDeck none = Expect.allDropped();
         for (int drift = -2; drift <= 2; drift++) {
             expect.same("bestBoard(" + drift + ") without pins", 0, none.bestBoard(drift));
         }
@@ -285,7 +271,7 @@ public final class EdgeWouldTest {
         expect.badArgument("goesOn(41, 0)", () -> lane.goesOn(41, 0));
         expect.badArgument("goesOn(20, -3)", () -> lane.goesOn(20, -3));
         expect.badArgument("goesOn(20, 3)", () -> lane.goesOn(20, 3));
-        for (int far : FAR) {
+        for (int far : Expect.FAR) {
             expect.badArgument("goesOn(" + far + ", 0)", () -> lane.goesOn(far, 0));
             expect.badArgument("goesOn(20, " + far + ")", () -> lane.goesOn(20, far));
         }
@@ -308,6 +294,20 @@ public final class EdgeWouldTest {
                 expect.same("goesOn(" + board + ", " + drift + ") behind " + takes.length + " rolls", rolled.about(3),
                         lane.goesOn(board, drift));
             }
+        }
+    }
+
+    /** The settings of the state hold for the rolls that are left, too. */
+    private static void goesOnWithSettings() {
+        for (int i = 0; i < 16; i++) {
+            PinDeck lane = new PinDeck();
+            lane.set(1, i % 4);
+            lane.set(2, i / 4);
+            int due = lane.goesOn(19, 2);
+            while (lane.about(9) == 0) {
+                lane.roll(19, 2, 30, false);
+            }
+            expect.same("goesOn(19, 2) with settings of " + i % 4 + " and " + i / 4, lane.about(3), due);
         }
     }
 
@@ -378,7 +378,7 @@ public final class EdgeWouldTest {
         expect.same("drops with fallen pins", 0, fallen.drops());
         fallen.set(2, 0);
         expect.same("drops with fallen pins and setting 2 as 0", 0, fallen.drops());
-        expect.same("drops with all fallen", 0, allDropped().drops());
+        expect.same("drops with all fallen", 0, Expect.allDropped().drops());
     }
 
     private static void dropsChangesNothing() {
@@ -424,6 +424,7 @@ public final class EdgeWouldTest {
     private static void testGoesOnAndDrops() {
         expect.test(19, "if an argument is out of range", EdgeWouldTest::goesOnRange);
         expect.test(19, "if all rolls that are left were with such a ball", EdgeWouldTest::goesOnLikeRolls);
+        expect.test(19, "Tells how the game ends.", EdgeWouldTest::goesOnWithSettings);
         expect.test(19, "Returns the points of all frames", EdgeWouldTest::goesOnAtTheEnd);
         expect.test(19, "and neither stopped nor a foul", EdgeWouldTest::goesOnNotStopped);
         expect.test(19, "these and all following methods up to the save slots change nothing",

@@ -4,6 +4,9 @@ final class Expect {
         long answer();
     }
 
+    /** Arguments that are out of every range. */
+    static final int[] FAR = {Integer.MIN_VALUE, Integer.MIN_VALUE + 1, Integer.MAX_VALUE};
+
     private static final int PROMISES = 24;
     /** Of the faults of one sentence; all of them are counted. */
     private static final int MOST_PRINTED = 20;
@@ -146,6 +149,23 @@ final class Expect {
     /** A lane ahead of the frame 9, nothing having been taken. */
     static PinDeck aheadOfLastFrame() {
         return after(new int[18]);
+    }
+
+    /** A lane of which the frame 9 took these, nothing having been taken ahead of it. */
+    static PinDeck lastFrame(int... takes) {
+        PinDeck lane = aheadOfLastFrame();
+        for (int n : takes) {
+            take(lane, n);
+        }
+        return lane;
+    }
+
+    /** A lane in the middle of a frame, all of whose pins have dropped. */
+    static PinDeck allDropped() {
+        PinDeck lane = new PinDeck();
+        touchAll(lane, 2);
+        beside(lane, false);
+        return lane;
     }
 
     /** A game of twelve strikes, at its end. */
