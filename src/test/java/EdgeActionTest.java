@@ -458,35 +458,37 @@ public final class EdgeActionTest {
         expect.test(11, "the settings stay, and so do the numbers of balls stopped, pins dropped and fouls",
                 EdgeActionTest::beginKeeps);
         expect.test(11, "everything but the text and the save slots", EdgeActionTest::beginKeepsSlotsAndText);
-        expect.test(13, "if there is no such pin", EdgeActionTest::touchPins);
-        expect.test(13, "if v is out of range", EdgeActionTest::touchLeanings);
-        expect.test(13, "if it has fallen", EdgeActionTest::touchFallen);
+        expect.test(13, "Throws `IndexOutOfBoundsException` if there is no such pin", EdgeActionTest::touchPins);
+        expect.test(13, "Throws `IllegalArgumentException` if v is out of range", EdgeActionTest::touchLeanings);
+        expect.test(13, "Throws `IllegalStateException` if it has fallen", EdgeActionTest::touchFallen);
         expect.test(13, "the one that its description names first is thrown", EdgeActionTest::touchBothWrong);
         expect.test(13, "Returns its previous leaning.", EdgeActionTest::touchAnswers);
-        expect.test(13, "so that it leans otherwise", EdgeActionTest::touchChangesLeaningAlone);
+        expect.test(13, "Somebody touches a pin, so that it leans otherwise.",
+                EdgeActionTest::touchChangesLeaningAlone);
         expect.test(13, "Behind a roll, a pin is told as standing", EdgeActionTest::touchAtTheEnd);
         expect.test(13, "A call that throws an exception changes nothing.", EdgeActionTest::refusedTouch);
     }
 
     private static void testSet() {
-        expect.test(14, "if what or v is out of range", EdgeActionTest::setWhat);
+        expect.test(14, "Throws `IllegalArgumentException` if what or v is out of range", EdgeActionTest::setWhat);
         expect.test(14, "how many ticks the machine waits, 3 to 90", EdgeActionTest::rangeOfWait);
         expect.test(14, "the leaning that is told as standing, 0 to 3", EdgeActionTest::rangeOfTold);
         expect.test(14, "the leaning that grips bear, 0 to 3", EdgeActionTest::rangeOfGrips);
         expect.test(14, "Returns the previous one.", EdgeActionTest::setAnswers);
-        expect.test(14, "another argument is out of its range", EdgeActionTest::setBothWrong);
+        expect.test(14, "IllegalArgumentException means that another argument is out of its range.",
+                EdgeActionTest::setBothWrong);
         expect.test(14, "Changes a setting.", EdgeActionTest::setAtTheEnd);
         expect.test(14, "A call that throws an exception changes nothing.", EdgeActionTest::refusedSet);
     }
 
     private static void testUndo() {
-        expect.test(15, "if none is remembered", EdgeActionTest::undoOfNone);
+        expect.test(15, "Throws `IllegalStateException` if none is remembered", EdgeActionTest::undoOfNone);
         expect.test(15, "A call that throws an exception changes nothing.", EdgeActionTest::refusedUndo);
         expect.test(15, "At most 14 states are remembered", EdgeActionTest::undoMost);
         expect.test(15, "when one more is remembered, the oldest one is forgotten", EdgeActionTest::undoMostAgain);
         expect.test(15, "is an action, also if nothing becomes different", EdgeActionTest::actionsThatChangeNothing);
         expect.test(15, "(undo is none)", EdgeActionTest::undoIsNoAction);
-        expect.test(15, "The methods in the section \"actions\" change the state",
+        expect.test(15, "The methods in the section \"actions\" change the state, which consists of",
                 EdgeActionTest::otherCallsAreNoActions);
         expect.test(15, "load and restore are not actions.", EdgeActionTest::loadAndRestoreAreNoActions);
         expect.test(15, "Each call of one of them that does not throw an exception is an action",

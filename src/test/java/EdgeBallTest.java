@@ -152,14 +152,9 @@ public final class EdgeBallTest {
 
     // ---- the rows
 
-    /** Ahead of the last roll, all pins but these have been taken. */
     private static PinDeck only(int... left) {
-        PinDeck lane = Expect.aheadOfLastFrame();
-        Expect.touchAll(lane, 3);
-        for (int k : left) {
-            lane.touch(k, 0);
-        }
-        expect.same("the pins taken ahead", 10 - left.length, Expect.beside(lane, false));
+        PinDeck lane = Expect.only(left);
+        expect.same("the pins taken ahead", 10 - left.length, lane.taken(18));
         return lane;
     }
 
@@ -315,30 +310,34 @@ public final class EdgeBallTest {
     }
 
     public static void main(String[] args) {
-        expect.test(12, "A ball has a board, 0 to 40", EdgeBallTest::boards);
-        expect.test(12, "a drift, -2 to 2", EdgeBallTest::drifts);
-        expect.test(12, "and a speed, 1 to 30", EdgeBallTest::speeds);
-        expect.test(12, "if the game is over", EdgeBallTest::gameOver);
-        expect.test(12, "the one that its description names first is thrown", EdgeBallTest::bothWrong);
+        expect.test(12, "- `board`: 0 to 40", EdgeBallTest::boards);
+        expect.test(12, "- `drift`: -2 to 2", EdgeBallTest::drifts);
+        expect.test(12, "- `speed`: 1 to 30", EdgeBallTest::speeds);
+        expect.test(12, "Throws `IllegalStateException` if the game is over", EdgeBallTest::gameOver);
+        expect.test(12, "If several exceptions apply to a call, the one that its description names first is thrown.",
+                EdgeBallTest::bothWrong);
         expect.test(12, "A call that throws an exception changes nothing.", EdgeBallTest::refusedRoll);
         expect.test(12, "It takes 90 / speed ticks, rounded down.", EdgeBallTest::ticks);
-        expect.test(12, "If these are more than setting 0, the rake is down when it comes",
+        expect.test(12, "If these are more than setting 0, the rake is down when it comes, and it is stopped",
                 EdgeBallTest::ticksOfSettingZero);
-        expect.test(12, "nothing else happens, and it counts as no roll", EdgeBallTest::stopped);
-        expect.test(12, "(of a ball that is stopped it does not matter)", EdgeBallTest::stoppedFoul);
+        expect.test(12, "and it is stopped: nothing else happens, and it counts as no roll.", EdgeBallTest::stopped);
+        expect.test(12, "`foul`: whether it is a foul (of a ball that is stopped it does not matter)",
+                EdgeBallTest::stoppedFoul);
         expect.test(12, "its board, and its drift times the row", EdgeBallTest::placeInEachRow);
         expect.test(12, "If x and p differ by at most 3, the pin falls", EdgeBallTest::atMostThree);
-        expect.test(12, "it goes to the right if x is greater than p, to the left if it is less, to both sides",
-                EdgeBallTest::sidesOfHits);
+        expect.test(12, "it goes to the right if x is greater than p, to the left if it is less, to both sides if they "
+                + "are the same.", EdgeBallTest::sidesOfHits);
         expect.test(12, "In a row it is at the place p, for all pins of the row", EdgeBallTest::onePlaceInRow);
         expect.test(12, "The ball is pushed by 1 less if x is greater, by 1 more if it is less, from the next row on.",
                 EdgeBallTest::pushedBall);
-        expect.test(12, "If they differ by 4, the pin leans by 1 more", EdgeBallTest::grazed);
+        expect.test(12, "If they differ by 4, the pin leans by 1 more, and its shift becomes 1 more if x is greater "
+                + "than p, otherwise 1 less", EdgeBallTest::grazed);
         expect.test(12, "(not beyond -2 and 2)", EdgeBallTest::shiftEnds);
-        expect.test(12, "If it would lean by more than 3, it falls instead, and goes to the right if x is greater",
-                EdgeBallTest::grazedPinsFall);
+        expect.test(12, "If it would lean by more than 3, it falls instead, and goes to the right if x is greater, "
+                + "otherwise to the left", EdgeBallTest::grazedPinsFall);
         expect.test(12, "the shift becomes another one all the same", EdgeBallTest::shiftOfGrazedPinsThatFall);
-        expect.test(12, "(also by others ahead of them)", EdgeBallTest::pushedByOthers);
+        expect.test(12, "Then the pins of the row that fell by this ball (also by others ahead of them)",
+                EdgeBallTest::pushedByOthers);
         expect.test(12, "push those behind them that have not fallen", EdgeBallTest::pushedByThisBallAlone);
         expect.test(12, "A pin that is pushed leans by 2 more; if it would lean by more than 3, it falls instead",
                 EdgeBallTest::pushedByTwo);
@@ -347,7 +346,7 @@ public final class EdgeBallTest {
                 EdgeBallTest::outermostPins);
         expect.test(12, "one that goes to both sides first the left one, then the right one",
                 EdgeBallTest::bothSides);
-        expect.test(12, "there are two pins of the next row (not of the row 3)",
+        expect.test(12, "Behind a pin with the index i there are two pins of the next row (not of the row 3)",
                 EdgeBallTest::nothingBehindLastRow);
         expect.test(12, "The pins of the row that have not fallen are gone through", EdgeBallTest::nothingLeft);
         expect.covers(12, 12);

@@ -300,10 +300,12 @@ public final class EdgeMachineTest {
         expect.test(12, "With a foul it takes 0", EdgeMachineTest::foulTakesNothing);
         expect.test(12, "and all pins are as they were ahead of it", EdgeMachineTest::foulLeavesPins);
         expect.test(12, "(what the machine does behind a roll is done then, too)", EdgeMachineTest::foulAndMachine);
-        expect.test(12, "if it leans by more than setting 2, it drops", EdgeMachineTest::leansByMore);
+        expect.test(12, "Pins are set again in the middle of a frame: each that is told as standing is lifted; if it "
+                + "leans by more than setting 2, it drops", EdgeMachineTest::leansByMore);
         expect.test(12, "it has fallen then, and is not told as standing any more, but is taken by nobody",
                 EdgeMachineTest::dropped);
-        expect.test(12, "it is set where it stood, with its shift, leaning by 0", EdgeMachineTest::setWhereItStood);
+        expect.test(12, "otherwise it is set where it stood, with its shift, leaning by 0.",
+                EdgeMachineTest::setWhereItStood);
         expect.test(12, "Each other pin has fallen then.", EdgeMachineTest::otherPinsHaveFallen);
     }
 
@@ -313,8 +315,8 @@ public final class EdgeMachineTest {
                 EdgeMachineTest::oneRollIfStrike);
         expect.test(12, "Two rolls that take 10 together, the first one not all of them, are a spare.",
                 EdgeMachineTest::spares);
-        expect.test(12, "a third roll if its first one is a strike, or its first two are a spare",
-                EdgeMachineTest::thirdRoll);
+        expect.test(12, "In the frame 9 there is a third roll if its first one is a strike, or its first two are a "
+                + "spare.", EdgeMachineTest::thirdRoll);
         expect.test(12, "Ahead of each frame", EdgeMachineTest::newRackAheadOfFrames);
         expect.test(12, "and in the frame 9 behind a strike and a spare, there is a new rack",
                 EdgeMachineTest::newRacksInLastFrame);

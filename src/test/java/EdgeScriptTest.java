@@ -472,11 +472,12 @@ public final class EdgeScriptTest {
     }
 
     private static void testScripts() {
-        expect.test(21, "A script has 1 to 3 commands", EdgeScriptTest::numbers);
-        expect.test(21, "a number of at most 5 * n digits (0 or more)", EdgeScriptTest::digits);
+        expect.test(21, "- `n`: number of commands, 1 to 3", EdgeScriptTest::numbers);
+        expect.test(21, "- `script`: the commands, a number of at most 5 * n digits (0 or more)",
+                EdgeScriptTest::digits);
         expect.test(21, "the first command is the highest group of the number", EdgeScriptTest::highestGroupFirst);
         expect.test(21, "(with zeros before it, if it has fewer digits)", EdgeScriptTest::zerosAhead);
-        expect.test(21, "from 0, of the first command that fails; NONE if all succeed",
+        expect.test(21, "Returns the index, from 0, of the first command that fails; NONE if all succeed.",
                 EdgeScriptTest::firstThatFails);
         expect.test(21, "The commands 1 to 5 fail if the method would throw an exception", EdgeScriptTest::rolls);
         expect.test(21, "1 b b d 0: roll(bb, d - 2, 30, no foul)", EdgeScriptTest::rollsOfEachDrift);
@@ -490,7 +491,8 @@ public final class EdgeScriptTest {
         expect.test(21, "6 0 0 n n: succeeds if at most nn pins are told as standing", EdgeScriptTest::toldAtMost);
         expect.test(21, "7 k v 0 0: succeeds if the pin k leans by v (4: it has fallen)", EdgeScriptTest::leans);
         expect.test(21, "8 0 p p p: succeeds if all frames have at least ppp points", EdgeScriptTest::pointsAtLeast);
-        expect.test(21, "a strike with s as 1, a spare with s as 2, neither with s as 0", EdgeScriptTest::marks);
+        expect.test(21, "9 f 0 0 s: succeeds if the frame f has a strike with s as 1, a spare with s as 2, neither "
+                + "with s as 0.", EdgeScriptTest::marks);
         expect.test(21, "and so does any other group", EdgeScriptTest::otherGroups);
         expect.test(21, "these and all following methods up to the save slots change nothing",
                 EdgeScriptTest::scriptChangesNothing);
@@ -501,14 +503,16 @@ public final class EdgeScriptTest {
         expect.test(22, "number of turns, 1 to 60", EdgeScriptTest::numbersOfTurns);
         expect.test(22, "any long", EdgeScriptTest::seeds);
         expect.test(22, "A long x starts as the seed.", EdgeScriptTest::eachTurn);
-        expect.test(22, "(with long overflow)", EdgeScriptTest::stepsOfX);
-        expect.test(22, "0: touch(q % 10, q / 16 % 4).", EdgeScriptTest::touchesOfTurns);
+        expect.test(22, "Each turn first replaces x by x * 6364136223846793005L + 1442695040888963407L (with long "
+                + "overflow), and r = (int) (x >>> 33) is computed. q is r / 8.", EdgeScriptTest::stepsOfX);
+        expect.test(22, "By r % 8: 0: touch(q % 10, q / 16 % 4).", EdgeScriptTest::touchesOfTurns);
         expect.test(22, "1: set(1 + q % 2, q / 2 % 4).", EdgeScriptTest::setsOfTurns);
         expect.test(22, "Otherwise: roll(10 + q % 21, q / 32 % 5 - 2, 1 + q / 256 % 30, q / 8192 % 16 is 0).",
                 EdgeScriptTest::rollsOfTurns);
         expect.test(22, "If these are more than setting 0, the rake is down", EdgeScriptTest::settingsInTurns);
         expect.test(22, "What would throw an exception is left out.", EdgeScriptTest::turnsLeftOut);
-        expect.test(22, "Returns 1000 * (the rolls of the game at the end)", EdgeScriptTest::simulateAnswers);
+        expect.test(22, "Returns 1000 * (the rolls of the game at the end) + (the points of all frames at the end).",
+                EdgeScriptTest::simulateAnswers);
         expect.test(22, "Simulates m turns on a copy of the state.", EdgeScriptTest::simulateChangesNothing);
     }
 

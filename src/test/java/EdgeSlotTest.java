@@ -243,14 +243,15 @@ public final class EdgeSlotTest {
     }
 
     public static void main(String[] args) {
-        expect.test(23, "if there is no such save slot", EdgeSlotTest::saveSlots);
+        expect.test(23, "Throws `IndexOutOfBoundsException` if there is no such save slot", EdgeSlotTest::saveSlots);
         expect.test(23, "Returns the rolls of the game so far.", EdgeSlotTest::saveAnswers);
         expect.test(23, "everything but the text and the save slots", EdgeSlotTest::saveIsNoAction);
         expect.test(23, "Stores the present state in a save slot.", EdgeSlotTest::savePresentState);
         expect.test(23, "a save slot is not 0 or 1", EdgeSlotTest::slotsApart);
         expect.test(23, "A call that throws an exception changes nothing.", EdgeSlotTest::refusedSave);
-        expect.test(24, "if there is no such save slot", EdgeSlotTest::restoreSlots);
-        expect.test(24, "if nothing has been saved in it since the last load", EdgeSlotTest::restoreOfNothing);
+        expect.test(24, "Throws `IndexOutOfBoundsException` if there is no such save slot", EdgeSlotTest::restoreSlots);
+        expect.test(24, "Throws `IllegalStateException` if nothing has been saved in it since the last load",
+                EdgeSlotTest::restoreOfNothing);
         expect.test(24, "since the last load", EdgeSlotTest::restoreBehindLoad);
         expect.test(24, "the one that its description names first is thrown", EdgeSlotTest::noSlotAndNothing);
         expect.test(24, "Returns the rolls of the game so far then.", EdgeSlotTest::restoreAnswers);
@@ -258,7 +259,7 @@ public final class EdgeSlotTest {
         expect.test(24, "load and restore are not actions.", EdgeSlotTest::restoreIsNoAction);
         expect.test(24, "The save slot keeps it.", EdgeSlotTest::slotKeeps);
         expect.test(24, "Replaces the state by the one in a save slot", EdgeSlotTest::restoreAll);
-        expect.test(24, "the frame, 10 if the game is over", EdgeSlotTest::restoreEnds);
+        expect.test(24, "which consists of everything but the text and the save slots", EdgeSlotTest::restoreEnds);
         expect.test(24, "everything but the text and the save slots", EdgeSlotTest::restoreKeepsText);
         expect.test(24, "A call that throws an exception changes nothing.", EdgeSlotTest::refusedRestore);
         expect.covers(23, 24);

@@ -403,7 +403,7 @@ public final class EdgeTextTest {
     public static void main(String[] args) {
         expect.test(2, "character code, 0 to 255", EdgeTextTest::codes);
         expect.test(2, "Returns the new length of the text.", EdgeTextTest::newLength);
-        expect.test(2, "if the text already has 120 characters", EdgeTextTest::fullText);
+        expect.test(2, "Throws `IllegalStateException` if the text already has 120 characters", EdgeTextTest::fullText);
         expect.test(2, "the one that its description names first is thrown", EdgeTextTest::wrongCodeToFullText);
         expect.test(2, "A call that throws an exception changes nothing.", EdgeTextTest::refusedAppend);
         expect.test(2, "everything but the text and the save slots", EdgeTextTest::appendIsNoAction);
@@ -418,11 +418,12 @@ public final class EdgeTextTest {
         expect.test(4, "two digits for a speed (01 to 30)", EdgeTextTest::speeds);
         expect.test(4, "and perhaps the letter f: a foul", EdgeTextTest::fouls);
         expect.test(4, "There are no blanks.", EdgeTextTest::blanks);
-        expect.test(4, "the first character that these rules do not allow at its place", EdgeTextTest::firstError);
+        expect.test(4, "The text is read from left to right. The error position is the index of the first character "
+                + "that these rules do not allow at its place", EdgeTextTest::firstError);
         expect.test(4, "a digit is not allowed if no number that is allowed begins with it and those before it",
                 EdgeTextTest::digitsOfNoNumber);
-        expect.test(4, "the text ends too soon, it is the length of the text", EdgeTextTest::endsTooSoon);
-        expect.test(4, "NONE if it is a game", EdgeTextTest::games);
+        expect.test(4, "if the text ends too soon, it is the length of the text", EdgeTextTest::endsTooSoon);
+        expect.test(4, "Returns the error position of the text; NONE if it is a game.", EdgeTextTest::games);
         expect.test(4, "Rolls behind the end of the game", EdgeTextTest::gamesBehindTheEnd);
         expect.test(4, "Checks the text.", EdgeTextTest::errorPositionChangesNothing);
         expect.test(5, "Makes everything as in a new object", EdgeTextTest::loadAsNew);
@@ -435,7 +436,7 @@ public final class EdgeTextTest {
         expect.test(5, "Behind it no state is remembered", EdgeTextTest::loadRemembersNothing);
         expect.test(5, "and both save slots are empty", EdgeTextTest::loadEmptiesSlots);
         expect.test(5, "Keeps the text.", EdgeTextTest::loadKeepsText);
-        expect.test(5, "if the text is not a game", EdgeTextTest::loadOfNoGame);
+        expect.test(5, "Throws `IllegalStateException` if the text is not a game", EdgeTextTest::loadOfNoGame);
         expect.test(5, "A call that throws an exception changes nothing.", EdgeTextTest::refusedLoad);
         expect.covers(2, 5);
         expect.end();

@@ -503,43 +503,44 @@ public final class EdgeViewTest {
         expect.test(1, "A new object has a new game.", EdgeViewTest::newGame);
         expect.test(1, "A new rack: all pins stand, with the shift 0 and leaning by 0.", EdgeViewTest::newRack);
         expect.test(1, "its board is 20 - 3 * (its row) + 6 * (its index) + its shift", EdgeViewTest::rows);
-        expect.test(1, "3 to 90, at first 18; 1: the leaning that is told as standing, 0 to 3, at first 2",
+        expect.test(1, "0: how many ticks the machine waits, 3 to 90, at first 18; 1: the leaning that is told as "
+                + "standing, 0 to 3, at first 2; 2: the leaning that grips bear, 0 to 3, at first 1.",
                 EdgeViewTest::firstSettings);
-        expect.test(1, "Creates a lane with a new game.", EdgeViewTest::nothingYet);
-        expect.test(1, "An object is used for at most 512 calls", EdgeViewTest::lastCalls);
-        expect.test(1, "`NONE = -1`: There is no such result.", EdgeViewTest::none);
+        expect.test(1, "`PinDeck()`: Creates a lane with a new game.", EdgeViewTest::nothingYet);
+        expect.test(1, "An object is used for at most 512 calls after it has been made", EdgeViewTest::lastCalls);
+        expect.test(1, "The constants: `NONE = -1`: There is no such result.", EdgeViewTest::none);
         expect.test(1, "The methods in the section \"actions\" change the state", EdgeViewTest::objectsApart);
     }
 
     private static void testAbout() {
-        expect.test(6, "if what is not 0 to 9", EdgeViewTest::aboutRange);
-        expect.test(6, "the frame, 10 if the game is over", EdgeViewTest::aboutFrame);
-        expect.test(6, "the rolls of this frame so far, 0 if it is over", EdgeViewTest::aboutRollsOfFrame);
-        expect.test(6, "the rolls of the game so far", EdgeViewTest::aboutRolls);
-        expect.test(6, "the points of all frames", EdgeViewTest::aboutPoints);
-        expect.test(6, "the balls stopped so far", EdgeViewTest::aboutStopped);
-        expect.test(6, "the pins dropped by grips so far", EdgeViewTest::aboutDropped);
-        expect.test(6, "the fouls so far", EdgeViewTest::aboutFouls);
-        expect.test(6, "how many pins are told as standing", EdgeViewTest::aboutTold);
-        expect.test(6, "how many have not fallen", EdgeViewTest::aboutNotFallen);
-        expect.test(6, "1 if the game is over, otherwise 0", EdgeViewTest::aboutOver);
+        expect.test(6, "Throws `IllegalArgumentException` if what is not 0 to 9", EdgeViewTest::aboutRange);
+        expect.test(6, "0: the frame, 10 if the game is over", EdgeViewTest::aboutFrame);
+        expect.test(6, "1: the rolls of this frame so far, 0 if it is over", EdgeViewTest::aboutRollsOfFrame);
+        expect.test(6, "2: the rolls of the game so far", EdgeViewTest::aboutRolls);
+        expect.test(6, "3: the points of all frames", EdgeViewTest::aboutPoints);
+        expect.test(6, "4: the balls stopped so far", EdgeViewTest::aboutStopped);
+        expect.test(6, "5: the pins dropped by grips so far", EdgeViewTest::aboutDropped);
+        expect.test(6, "6: the fouls so far", EdgeViewTest::aboutFouls);
+        expect.test(6, "7: how many pins are told as standing", EdgeViewTest::aboutTold);
+        expect.test(6, "8: how many have not fallen", EdgeViewTest::aboutNotFallen);
+        expect.test(6, "9: 1 if the game is over, otherwise 0", EdgeViewTest::aboutOver);
     }
 
     private static void testPin() {
-        expect.test(7, "if there is no such pin", EdgeViewTest::pinRange);
-        expect.test(7, "if what is not 0 to 3", EdgeViewTest::pinWhat);
+        expect.test(7, "Throws `IndexOutOfBoundsException` if there is no such pin", EdgeViewTest::pinRange);
+        expect.test(7, "Throws `IllegalArgumentException` if what is not 0 to 3", EdgeViewTest::pinWhat);
         expect.test(7, "the one that its description names first is thrown", EdgeViewTest::pinBothWrong);
-        expect.test(7, "its leaning, 4 if it has fallen", EdgeViewTest::pinLeaning);
+        expect.test(7, "0: its leaning, 4 if it has fallen", EdgeViewTest::pinLeaning);
         expect.test(7, "A pin has a shift, -2 to 2", EdgeViewTest::pinShift);
         expect.test(7, "its board is 20 - 3 * (its row) + 6 * (its index) + its shift", EdgeViewTest::pinBoard);
-        expect.test(7, "1 if it is told as standing, otherwise 0", EdgeViewTest::pinTold);
+        expect.test(7, "3: 1 if it is told as standing, otherwise 0", EdgeViewTest::pinTold);
     }
 
     private static void testFrame() {
-        expect.test(8, "if there is no such frame", EdgeViewTest::frameRange);
-        expect.test(8, "if what is not 0 to 2", EdgeViewTest::frameWhat);
+        expect.test(8, "Throws `IndexOutOfBoundsException` if there is no such frame", EdgeViewTest::frameRange);
+        expect.test(8, "Throws `IllegalArgumentException` if what is not 0 to 2", EdgeViewTest::frameWhat);
         expect.test(8, "the one that its description names first is thrown", EdgeViewTest::frameBothWrong);
-        expect.test(8, "its rolls so far", EdgeViewTest::frameRolls);
+        expect.test(8, "0: its rolls so far", EdgeViewTest::frameRolls);
         expect.test(8, "with a strike those of the next two rolls besides, with a spare that of the next one",
                 EdgeViewTest::framePoints);
         expect.test(8, "(rolls that have not been done count 0)", EdgeViewTest::frameNotDone);
@@ -552,11 +553,11 @@ public final class EdgeViewTest {
     }
 
     private static void testTakenAndSetting() {
-        expect.test(9, "if there is no such roll", EdgeViewTest::takenRange);
+        expect.test(9, "Throws `IndexOutOfBoundsException` if there is no such roll", EdgeViewTest::takenRange);
         expect.test(9, "roll of the game, from 0", EdgeViewTest::takenMost);
         expect.test(9, "it counts as no roll", EdgeViewTest::takenBehindStopped);
         expect.test(9, "Returns what a roll took.", EdgeViewTest::takenOfFormerGame);
-        expect.test(10, "if what is out of range", EdgeViewTest::settingRange);
+        expect.test(10, "Throws `IllegalArgumentException` if what is out of range", EdgeViewTest::settingRange);
         expect.test(10, "Returns that setting.", EdgeViewTest::settingEnds);
     }
 

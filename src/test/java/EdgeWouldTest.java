@@ -393,14 +393,15 @@ public final class EdgeWouldTest {
     private static void testWould() {
         expect.test(16, "`board`: 0 to 40", EdgeWouldTest::wouldBoards);
         expect.test(16, "`drift`: -2 to 2", EdgeWouldTest::wouldDrifts);
-        expect.test(16, "if an argument is out of range", EdgeWouldTest::wouldWhat);
-        expect.test(16, "a ball that is not stopped", EdgeWouldTest::wouldNotStopped);
+        expect.test(16, "Throws `IllegalArgumentException` if an argument is out of range", EdgeWouldTest::wouldWhat);
+        expect.test(16, "Tells what a ball that is not stopped would do to the pins as they are",
+                EdgeWouldTest::wouldNotStopped);
         expect.test(16, "0: the pins that it would make fall, as a set", EdgeWouldTest::wouldFall);
         expect.test(16, "1: the pins that have not fallen then, and lean, as a set", EdgeWouldTest::wouldLean);
         expect.test(16, "2: the pins that it would take without a foul", EdgeWouldTest::wouldTake);
         expect.test(16, "3: how many of these would not have fallen", EdgeWouldTest::wouldTakeStanding);
         expect.test(16, "and was told as standing ahead of the roll", EdgeWouldTest::wouldOfTold);
-        expect.test(16, "to the pins as they are, ahead of what the machine does",
+        expect.test(16, "would do to the pins as they are, ahead of what the machine does.",
                 EdgeWouldTest::wouldAheadOfMachine);
         expect.test(16, "behind the last roll of the game nothing is done", EdgeWouldTest::wouldAtTheEnd);
         expect.test(16, "these and all following methods up to the save slots change nothing",
@@ -408,8 +409,9 @@ public final class EdgeWouldTest {
     }
 
     private static void testBestBoardAndSlowest() {
-        expect.test(17, "if drift is out of range", EdgeWouldTest::bestDrifts);
-        expect.test(17, "a ball of this drift would take the most pins", EdgeWouldTest::bestMost);
+        expect.test(17, "Throws `IllegalArgumentException` if drift is out of range", EdgeWouldTest::bestDrifts);
+        expect.test(17, "Returns the board with which a ball of this drift would take the most pins",
+                EdgeWouldTest::bestMost);
         expect.test(17, "of several the lowest", EdgeWouldTest::bestLowest);
         expect.test(17, "the most pins, of several the lowest", EdgeWouldTest::bestOfTheSame);
         expect.test(17, "A ball has a board, 0 to 40", EdgeWouldTest::bestOfSixAlone);
@@ -422,14 +424,14 @@ public final class EdgeWouldTest {
     }
 
     private static void testGoesOnAndDrops() {
-        expect.test(19, "if an argument is out of range", EdgeWouldTest::goesOnRange);
+        expect.test(19, "Throws `IllegalArgumentException` if an argument is out of range", EdgeWouldTest::goesOnRange);
         expect.test(19, "if all rolls that are left were with such a ball", EdgeWouldTest::goesOnLikeRolls);
         expect.test(19, "Tells how the game ends.", EdgeWouldTest::goesOnWithSettings);
         expect.test(19, "Returns the points of all frames", EdgeWouldTest::goesOnAtTheEnd);
         expect.test(19, "and neither stopped nor a foul", EdgeWouldTest::goesOnNotStopped);
         expect.test(19, "these and all following methods up to the save slots change nothing",
                 EdgeWouldTest::goesOnChangesNothing);
-        expect.test(20, "lean more than grips bear", EdgeWouldTest::dropsMore);
+        expect.test(20, "and lean more than grips bear", EdgeWouldTest::dropsMore);
         expect.test(20, "as a set", EdgeWouldTest::dropsAsSet);
         expect.test(20, "Returns the pins that are told as standing", EdgeWouldTest::dropsOfTold);
         expect.test(20, "these and all following methods up to the save slots change nothing",

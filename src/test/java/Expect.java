@@ -1,3 +1,5 @@
+import java.util.function.Consumer;
+
 /** Counts and prints the answers that are not as due. */
 final class Expect {
     interface Call {
@@ -76,6 +78,25 @@ final class Expect {
                 tell(what + " threw " + e + ", due is " + due.getSimpleName());
             }
         }
+    }
+
+    /** Behind a throwing call all is as it was: what is seen, the text, the save slots and the states remembered. */
+    void changesNothing(String what, Consumer<PinDeck> throwing) {
+        PinDeck lane = after(10, 3);
+        lane.append('P');
+        lane.save(1);
+        lane.touch(9, 3);
+        String before = seen(lane);
+        try {
+            throwing.accept(lane);
+            tell(what + " throws nothing");
+        } catch (IndexOutOfBoundsException | IllegalArgumentException | IllegalStateException e) {
+            equal("the states behind " + what, before, seen(lane));
+        }
+        same("undo behind " + what, 13, lane.undo());
+        badState("restore(0) behind " + what, () -> lane.restore(0));
+        same("restore(1) behind " + what, 2, lane.restore(1));
+        same("the text behind " + what, 1, lane.clearText());
     }
 
     private void tell(String fault) {
@@ -157,6 +178,17 @@ final class Expect {
         for (int n : takes) {
             take(lane, n);
         }
+        return lane;
+    }
+
+    /** A lane ahead of the last roll of its game: all pins but these have been taken by the roll ahead of it. */
+    static PinDeck only(int... left) {
+        PinDeck lane = aheadOfLastFrame();
+        touchAll(lane, 3);
+        for (int k : left) {
+            lane.touch(k, 0);
+        }
+        beside(lane, false);
         return lane;
     }
 

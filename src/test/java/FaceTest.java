@@ -69,15 +69,23 @@ public final class FaceTest {
 
     private static void rest() throws ReflectiveOperationException {
         expect.same("the class", Modifier.PUBLIC | Modifier.FINAL, PinDeck.class.getModifiers());
+        expect.holds("the class is without a package", PinDeck.class.getPackageName().isEmpty());
+        expect.holds("the class extends and implements nothing",
+                PinDeck.class.getSuperclass() == Object.class && PinDeck.class.getInterfaces().length == 0);
         Constructor<?>[] made = PinDeck.class.getDeclaredConstructors();
-        expect.holds("one public constructor without parameters",
-                made.length == 1 && made[0].getParameterCount() == 0 && Modifier.isPublic(made[0].getModifiers()));
+        expect.holds("one public constructor without parameters, which throws nothing",
+                made.length == 1 && made[0].getParameterCount() == 0 && Modifier.isPublic(made[0].getModifiers())
+                        && made[0].getExceptionTypes().length == 0);
         for (Field field : PinDeck.class.getDeclaredFields()) {
             expect.holds(field + " is private, or NONE",
                     Modifier.isPrivate(field.getModifiers()) || field.getName().equals("NONE"));
             expect.holds(field + " is final", Modifier.isFinal(field.getModifiers()));
         }
-        expect.same("NONE", -1, PinDeck.class.getField("NONE").getInt(null));
+        Field none = PinDeck.class.getField("NONE");
+        expect.same("NONE is public, static and final", Modifier.PUBLIC | Modifier.STATIC | Modifier.FINAL,
+                none.getModifiers());
+        expect.holds("NONE is an int", none.getType() == int.class);
+        expect.same("NONE", -1, none.getInt(null));
         for (Class<?> inner : PinDeck.class.getDeclaredClasses()) {
             int kind = inner.getModifiers();
             expect.holds(inner + " is static and not public",
