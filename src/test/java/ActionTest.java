@@ -265,11 +265,10 @@ public final class ActionTest {
         expect.same("set tells no pins", 10, lane.about(7));
     }
 
-    private static void undo() {
+    /** A lane behind so many actions of all kinds. */
+    private static PinDeck acted(int actions) {
         PinDeck lane = new PinDeck();
-        String[] seen = new String[17];
-        for (int i = 0; i < 17; i++) {
-            seen[i] = Expect.seen(lane);
+        for (int i = 0; i < actions; i++) {
             switch (i % 5) {
                 case 0: lane.roll(20 + i, 0, 30, i == 5); break;
                 case 1: lane.touch(6, i % 4); break;
@@ -278,12 +277,24 @@ public final class ActionTest {
                 default: lane.begin(); break;
             }
         }
-        for (int i = 16; i >= 3; i--) {
-            expect.same("undo of the action " + i, i - 3, lane.undo());
-            expect.holds("the state ahead of the action " + i, seen[i].equals(Expect.seen(lane)));
+        return lane;
+    }
+
+    private static void undo() {
+        for (int undone = 1; undone <= 14; undone++) {
+            PinDeck lane = acted(17);
+            for (int i = 1; i <= undone; i++) {
+                expect.same("undo " + i + " behind 17 actions", 14 - i, lane.undo());
+            }
+            expect.equal("the states behind " + undone + " of them", Expect.seen(acted(17 - undone)),
+                    Expect.seen(lane));
+        }
+        PinDeck lane = acted(17);
+        for (int i = 0; i < 14; i++) {
+            lane.undo();
         }
         expect.badState("undo with 14 states taken back", lane::undo);
-        expect.holds("it changes nothing", seen[3].equals(Expect.seen(lane)));
+        expect.equal("the states behind it", Expect.seen(acted(3)), Expect.seen(lane));
         lane.set(1, 2);
         expect.same("undo of another action", 0, lane.undo());
         expect.badState("undo again", lane::undo);

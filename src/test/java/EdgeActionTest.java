@@ -284,15 +284,15 @@ public final class EdgeActionTest {
 
     /** Does so many actions, and then takes back all that are remembered. */
     private static void undoes(PinDeck lane, int actions) {
-        List<String> states = new ArrayList<>();
+        List<Integer> settings = new ArrayList<>();
         for (int i = 0; i < actions; i++) {
-            states.add(Expect.seen(lane));
+            settings.add(lane.setting(0));
             lane.set(0, 3 + i);
         }
         int remembered = Math.min(actions, MOST);
         for (int i = 1; i <= remembered; i++) {
             expect.same("undo " + i + " behind " + actions + " actions", remembered - i, lane.undo());
-            expect.equal("the states behind undo " + i, states.get(actions - i), Expect.seen(lane));
+            expect.same("the setting behind undo " + i, settings.get(actions - i), lane.setting(0));
         }
         expect.badState("another undo behind " + actions + " actions", lane::undo);
     }
@@ -306,7 +306,7 @@ public final class EdgeActionTest {
 
     private static void undoMostAgain() {
         PinDeck lane = new PinDeck();
-        for (int i = 0; i < 9; i++) {
+        for (int i = 0; i < 7; i++) {
             undoes(lane, 5 + i * 2);
         }
         PinDeck half = new PinDeck();
@@ -401,15 +401,13 @@ public final class EdgeActionTest {
         expect.same("the rolls", 19, over.about(2));
     }
 
-    /** Each part of the state becomes another one by one action, and comes back. */
-    private static void undoBringsAllBack() {
+    /** A lane behind so many of seven actions, of which each makes something in the state another one. */
+    private static PinDeck acted(int actions) {
         PinDeck lane = new PinDeck();
         lane.set(2, 2);
         lane.touch(9, 3);
         lane.touch(8, 2);
-        List<String> states = new ArrayList<>();
-        for (int i = 0; i < 7; i++) {
-            states.add(Expect.seen(lane));
+        for (int i = 0; i < actions; i++) {
             switch (i) {
                 case 0: lane.roll(16, 0, 30, false); break;
                 case 1: lane.roll(24, 0, 30, true); break;
@@ -420,10 +418,21 @@ public final class EdgeActionTest {
                 default: lane.begin(); break;
             }
         }
-        for (int i = 6; i >= 0; i--) {
-            expect.holds("the action " + i + " changes something", !states.get(i).equals(Expect.seen(lane)));
+        return lane;
+    }
+
+    private static void undoBringsAllBack() {
+        for (int actions = 1; actions <= 7; actions++) {
+            PinDeck lane = acted(actions);
+            String due = Expect.seen(acted(actions - 1));
+            expect.holds("the action " + actions + " changes something", !due.equals(Expect.seen(lane)));
             lane.undo();
-            expect.equal("the states behind undo of the action " + i, states.get(i), Expect.seen(lane));
+            expect.equal("the states behind undo of the action " + actions, due, Expect.seen(lane));
+            PinDeck all = acted(7);
+            for (int i = 7; i >= actions; i--) {
+                all.undo();
+            }
+            expect.equal("the states behind undo of the actions from " + actions, due, Expect.seen(all));
         }
     }
 

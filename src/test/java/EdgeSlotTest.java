@@ -208,17 +208,15 @@ public final class EdgeSlotTest {
     private static void restoreEnds() {
         PinDeck lane = Expect.over();
         lane.save(0);
-        String twenty = Expect.seen(lane);
         lane.begin();
         for (int i = 0; i < 12; i++) {
             Expect.take(lane, 10);
         }
         lane.save(1);
-        String twelve = Expect.seen(lane);
         expect.same("restore(0)", 20, lane.restore(0));
-        expect.equal("the states of twenty rolls", twenty, Expect.seen(lane));
+        expect.equal("the states of twenty rolls", Expect.seen(Expect.over()), Expect.seen(lane));
         expect.same("restore(1)", 12, lane.restore(1));
-        expect.equal("the states of twelve rolls", twelve, Expect.seen(lane));
+        expect.equal("the states of twelve rolls", Expect.seen(Expect.allStrikes()), Expect.seen(lane));
     }
 
     private static void restoreKeepsText() {

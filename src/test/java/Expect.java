@@ -272,7 +272,8 @@ final class Expect {
                 all.append(lane.frame(f, what)).append(' ');
             }
         }
-        for (int i = 0; i < lane.about(2); i++) {
+        int rolls = lane.about(2);
+        for (int i = 0; i < rolls; i++) {
             all.append(lane.taken(i)).append(' ');
         }
         for (int what = 0; what < 3; what++) {

@@ -4,13 +4,18 @@ import java.util.function.IntUnaryOperator;
 
 /** Runs of random calls, within the ranges and outside them, each answered by PinDeck as by PlainLane. */
 public final class ModelTest {
-    private static final int RUNS = 1000;
-    private static final int CALLS = 512;
+    private static final int RUNS = 6000;
+    /** An object is used for at most 512 calls: at the end, some 105 of them look at all that can be seen. */
+    private static final int CALLS = 512 - 110;
+    /** The most calls that one step makes: it types a text. */
+    private static final int MOST_OF_STEP = 121;
 
     private static final class Run {
         final PinDeck lane = new PinDeck();
         final PlainLane plain = new PlainLane();
         final Random random;
+        /** The calls so far, at the most. */
+        int used;
         String call = "";
 
         Run(long seed) {
@@ -34,6 +39,9 @@ public final class ModelTest {
         }
 
         Expect.Call[] choose() {
+            if (plain.now.over && random.nextInt(8) == 0) {
+                return pair("begin", lane::begin, plain::begin);
+            }
             switch (random.nextInt(30)) {
                 case 0: return text();
                 case 1: return pair("load", lane::load, plain::load);
@@ -58,6 +66,7 @@ public final class ModelTest {
 
         Expect.Call[] pair(String name, Expect.Call one, Expect.Call other) {
             call = name;
+            used++;
             return new Expect.Call[] {one, other};
         }
 
@@ -81,6 +90,7 @@ public final class ModelTest {
             if (random.nextInt(3) == 0 && game.length() > 0) {
                 game.setCharAt(random.nextInt(game.length()), "P0123456789lkmrsfx ".charAt(random.nextInt(19)));
             }
+            used += game.length();
             return pair("append " + game, () -> typed(game, lane::append), () -> typed(game, plain::append));
         }
 
@@ -99,6 +109,7 @@ public final class ModelTest {
         /** Touches so many pins that strikes and spares come about. */
         Expect.Call[] touchMany() {
             int first = random.nextInt(3) == 0 ? upTo(0, 9) : 0;
+            used += 20;
             return pair("touch all from " + first, () -> touched(first, lane::pin, lane::touch),
                     () -> touched(first, plain::pin, plain::touch));
         }
@@ -232,22 +243,30 @@ public final class ModelTest {
         return all.toString();
     }
 
+    /** Answers what is wrong in a run of calls; an empty text if nothing is. */
+    private static String fault(long seed) {
+        Run run = new Run(seed);
+        int end = 1 + run.random.nextInt(CALLS - MOST_OF_STEP);
+        StringBuilder calls = new StringBuilder("seed " + seed + ": ");
+        while (run.used < end) {
+            Expect.Call[] both = run.choose();
+            calls.append(run.call).append("; ");
+            String got = outcome(both[0]);
+            String due = outcome(both[1]);
+            if (!got.equals(due)) {
+                return calls + "answered " + got + ", due is " + due;
+            }
+        }
+        String got = Expect.seen(run.lane);
+        String due = seen(run.plain);
+        return got.equals(due) ? "" : calls + "seen is " + got + ", due is " + due;
+    }
+
     public static void main(String[] args) {
         Expect expect = new Expect("ModelTest");
         for (int seed = 0; seed < RUNS; seed++) {
-            Run run = new Run(seed);
-            StringBuilder calls = new StringBuilder();
-            boolean good = true;
-            for (int i = 0; i < CALLS && good; i++) {
-                Expect.Call[] both = run.choose();
-                calls.append(run.call).append("; ");
-                String got = outcome(both[0]);
-                String due = outcome(both[1]);
-                good = got.equals(due) && Expect.seen(run.lane).equals(seen(run.plain));
-                String fault = good ? "" : "seed " + seed + ": " + calls + "answered " + got + ", due is " + due
-                        + "; seen is " + Expect.seen(run.lane) + ", due is " + seen(run.plain);
-                expect.holds(fault, good);
-            }
+            String fault = fault(seed);
+            expect.holds(fault, fault.isEmpty());
         }
         expect.end();
     }

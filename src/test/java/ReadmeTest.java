@@ -16,13 +16,17 @@ public final class ReadmeTest {
     private static final Expect expect = new Expect("ReadmeTest");
     private static final Path TESTS = Path.of("src", "test", "java");
     private static final String CLASSES = System.getProperty("java.class.path");
+    private static final String MAIN = "src/main/java/PinDeck.java";
     private static final Pattern EXAMPLE = Pattern.compile("(?s)```java\n(.*?)```");
+    /** A whole program, how it is compiled and run, and what it prints. */
+    private static final Pattern PROGRAM = Pattern.compile("(?s)```java\n(public final class (\\w+) .*?)```"
+            + ".*?\n    javac -d out (\\S+) (\\S+)\n    java -cp out (\\w+)\n.*?```\n(.*?)```");
     /** A line of an example: a call, and what it answers or throws. */
     private static final Pattern ANSWER = Pattern.compile(
             "(lane\\.\\w+\\(.*\\));\\s+// (NONE|-?\\d+|throws I\\w+Exception)(:.*)?");
     private static final Pattern ROW = Pattern.compile("(?m)^\\| `(\\w+)` \\|");
 
-    private static String program(String name, String lines) {
+    private static String inMain(String name, String lines) {
         return "public final class " + name + " {\npublic static void main(String[] args) {\n" + lines + "}\n}\n";
     }
 
@@ -54,7 +58,7 @@ public final class ReadmeTest {
 
     private static void compiles(Path folder, String name, String lines) throws IOException, InterruptedException {
         Path file = folder.resolve(name + ".java");
-        Files.writeString(file, program(name, lines));
+        Files.writeString(file, inMain(name, lines));
         expect.same(name + " compiles", 0, run("javac", "-d", folder.toString(), "-cp", CLASSES, file.toString()));
     }
 
@@ -72,19 +76,46 @@ public final class ReadmeTest {
         }
     }
 
+    /** The lines of examples that are no whole programs. */
+    private static void lines(Path folder, String readme) throws IOException, InterruptedException {
+        Matcher example = EXAMPLE.matcher(readme);
+        int number = 0;
+        while (example.find()) {
+            if (example.group(1).startsWith("public final class")) {
+                continue;
+            }
+            number++;
+            answersAreSaid("the example " + number, example.group(1));
+            compiles(folder, "Lines" + number, example.group(1));
+            compiles(folder, "Checked" + number, checked(example.group(1)));
+            answers(folder, "Checked" + number);
+        }
+        expect.holds("README.md has lines of examples", number > 0);
+    }
+
+    private static void program(Path folder, String readme) throws IOException, InterruptedException {
+        Matcher program = PROGRAM.matcher(readme);
+        expect.holds("README.md has a program", program.find());
+        String name = program.group(2);
+        expect.equal("the class that is compiled", MAIN, program.group(3));
+        expect.equal("the file that is compiled", name + ".java", program.group(4));
+        expect.equal("the program that is run", name, program.group(5));
+        Path file = folder.resolve(name + ".java");
+        Path printed = folder.resolve("printed");
+        Files.writeString(file, program.group(1));
+        String out = folder.resolve("out").toString();
+        expect.same(name + " compiles", 0, run("javac", "-d", out, MAIN, file.toString()));
+        int code = new ProcessBuilder("java", "-cp", out, name).redirectErrorStream(true)
+                .redirectOutput(printed.toFile()).start().waitFor();
+        expect.same("the exit code of " + name, 0, code);
+        expect.equal("the lines that " + name + " prints", program.group(6), Files.readString(printed));
+    }
+
     private static void examples(String readme) throws IOException, InterruptedException {
         Path folder = Files.createTempDirectory("readme");
         try {
-            Matcher example = EXAMPLE.matcher(readme);
-            int number = 0;
-            while (example.find()) {
-                number++;
-                answersAreSaid("the example " + number, example.group(1));
-                compiles(folder, "Example" + number, example.group(1));
-                compiles(folder, "Checked" + number, checked(example.group(1)));
-                answers(folder, "Checked" + number);
-            }
-            expect.holds("README.md has examples", number > 0);
+            program(folder, readme);
+            lines(folder, readme);
         } finally {
             remove(folder);
         }

@@ -3,9 +3,7 @@ public final class ScriptTest {
     private static final Expect expect = new Expect("ScriptTest");
 
     private static void script(PinDeck lane, int n, long script, int due) {
-        String before = Expect.seen(lane);
         expect.same("runScript(" + n + ", " + script + ")", due, lane.runScript(n, script));
-        expect.holds("runScript changes nothing", before.equals(Expect.seen(lane)));
     }
 
     private static void each(PinDeck lane, int due, int... commands) {
@@ -26,6 +24,7 @@ public final class ScriptTest {
 
     private static void sequences() {
         PinDeck lane = new PinDeck();
+        String before = Expect.seen(lane);
         script(lane, 2, 1202060002L, PinDeck.NONE);
         script(lane, 2, 1202060001L, 1);
         script(lane, 3, 120206000270400L, PinDeck.NONE);
@@ -51,6 +50,7 @@ public final class ScriptTest {
         script(lane, 2, 5000000000L, 1);
         script(lane, 3, 500005000099999L, 2);
         script(lane, 3, 999999999999999L, 0);
+        expect.equal("the states behind scripts", before, Expect.seen(lane));
     }
 
     private static void speedAndRake() {

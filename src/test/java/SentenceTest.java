@@ -36,6 +36,7 @@ public final class SentenceTest {
         String rolls = "P" + "20m04".repeat(19) + "20m04f".repeat(3) + "20m30";
         PinDeck lane = new PinDeck();
         Expect.type(lane, rolls + "f");
+        expect.badState("append to 120 characters", () -> lane.append('f'));
         expect.same("load of 120 characters", 0, lane.load());
         expect.same("the balls stopped", 22, lane.about(4));
         expect.same("the fouls", 1, lane.about(6));
@@ -158,6 +159,7 @@ public final class SentenceTest {
             expect.same("the mark of the frame " + f, due[f], lane.frame(f, 2));
         }
         expect.same("the mark of a spare in the frame 9", 2, Expect.lastFrame(0, 10, 10).frame(9, 2));
+        expect.same("the mark of a strike, 4 and 6 in the frame 9", 1, Expect.lastFrame(10, 4, 6).frame(9, 2));
     }
 
     private static void takenIsAnswered() {
@@ -244,8 +246,9 @@ public final class SentenceTest {
 
     private static void wrongBalls() {
         PinDeck lane = new PinDeck();
-        int[][] wrong = {{-1, -3, 0}, {41, 3, 31}, {-1, 0, 31}, {41, 0, 0}, {20, 3, 0}, {20, -3, 31}, {41, -3, 30},
-            {100, 0, 15}, {20, 100, 15}, {20, 0, 100}};
+        int[][] wrong = {{-1, 0, 30}, {41, 0, 30}, {20, -3, 30}, {20, 3, 30}, {20, 0, 0}, {20, 0, 31}, {-1, -3, 0},
+            {41, 3, 31}, {-1, 0, 31}, {41, 0, 0}, {20, 3, 0}, {20, -3, 31}, {41, -3, 30}, {100, 0, 15}, {20, 100, 15},
+            {20, 0, 100}};
         for (int[] ball : wrong) {
             expect.badArgument("roll(" + ball[0] + ", " + ball[1] + ", " + ball[2] + ")",
                     () -> lane.roll(ball[0], ball[1], ball[2], false));

@@ -93,36 +93,43 @@ public final class SentenceWouldTest {
         expect.changesNothing("simulate(1, 61)", lane -> lane.simulate(1, 61));
     }
 
-    /** What these calls answer and leave is the same, whichever others have been called ahead of them. */
-    private static void othersChangeNothing() {
-        for (int seed = 0; seed < 50; seed++) {
-            PinDeck lane = Expect.after(10, seed % 10);
-            lane.touch(9, seed % 4 % 3);
-            Random random = new Random(seed);
-            String before = Expect.seen(lane);
-            String first = answers(lane);
-            for (int i = 0; i < 10; i++) {
-                lane.simulate(random.nextLong(), 1 + random.nextInt(60));
-                lane.goesOn(random.nextInt(41), random.nextInt(5) - 2);
-                lane.runScript(3, 410202202050000L);
-                lane.would(random.nextInt(41), random.nextInt(5) - 2, random.nextInt(4));
-                lane.bestBoard(random.nextInt(5) - 2);
-            }
-            expect.equal("the answers", first, answers(lane));
-            expect.equal("the states", before, Expect.seen(lane));
+    /** A lane in the middle of a frame, with pins and settings of many kinds. */
+    private static PinDeck laneOf(int seed) {
+        PinDeck lane = Expect.after(10, seed % 10);
+        lane.touch(9, seed % 3);
+        lane.set(1, seed % 4);
+        lane.set(2, seed / 4 % 4);
+        return lane;
+    }
+
+    private static final int QUESTIONS = 9;
+
+    private static int answer(PinDeck lane, int question) {
+        switch (question) {
+            case 0: return lane.would(18, 1, 0);
+            case 1: return lane.would(18, 1, 1);
+            case 2: return lane.would(18, 1, 2) + 100 * lane.would(18, 1, 3);
+            case 3: return lane.bestBoard(-1);
+            case 4: return lane.slowest();
+            case 5: return lane.goesOn(19, 2);
+            case 6: return lane.drops();
+            case 7: return lane.runScript(3, 120206000580012L);
+            default: return lane.simulate(5, 40);
         }
     }
 
-    private static String answers(PinDeck lane) {
-        StringBuilder all = new StringBuilder();
-        for (int drift = -2; drift <= 2; drift++) {
-            all.append(lane.bestBoard(drift)).append(' ').append(lane.goesOn(19, drift)).append(' ');
-            all.append(lane.would(18, drift, 0)).append(' ').append(lane.would(18, drift, 1)).append(' ');
-            all.append(lane.would(18, drift, 2)).append(' ').append(lane.would(18, drift, 3)).append(' ');
-            all.append(lane.simulate(drift, 40)).append(' ');
-            all.append(lane.runScript(3, 120202202060005L)).append(' ');
+    /** The answer of a call is the same, whichever of these calls have been done ahead of it on the same lane. */
+    private static void othersChangeNothing() {
+        for (int seed = 0; seed < 40; seed++) {
+            Random random = new Random(seed);
+            PinDeck used = laneOf(seed);
+            String before = Expect.seen(used);
+            for (int i = 0; i < 60; i++) {
+                int question = random.nextInt(QUESTIONS);
+                expect.same("the question " + question, answer(laneOf(seed), question), answer(used, question));
+            }
+            expect.equal("the states", before, Expect.seen(used));
         }
-        return all.append(lane.drops()).append(' ').append(lane.slowest()).toString();
     }
 
     // ---- promises 21 and 22

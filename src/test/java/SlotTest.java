@@ -19,13 +19,24 @@ public final class SlotTest {
         expect.badState("undo behind restore", lane::undo);
         lane.roll(25, 0, 30, false);
         expect.same("restore is no action", 0, lane.undo());
-        expect.holds("the state of slot 0 again", first.equals(Expect.seen(lane)));
-        expect.same("restore(1)", 4, lane.restore(1));
-        expect.holds("the state of slot 1", second.equals(Expect.seen(lane)));
         lane.begin();
         lane.touch(4, 3);
+        expect.same("restore(1)", 4, lane.restore(1));
+        expect.holds("the state of slot 1", second.equals(Expect.seen(lane)));
+    }
+
+    private static void saveAgain() {
+        PinDeck lane = Expect.after(3, 4, 5);
+        lane.save(0);
+        Expect.take(lane, 2);
+        lane.save(1);
+        String second = Expect.seen(lane);
+        lane.begin();
+        lane.touch(4, 3);
+        expect.same("restore(1)", 4, lane.restore(1));
+        lane.begin();
         expect.same("the slot keeps it", 4, lane.restore(1));
-        expect.holds("the state of slot 1 again", second.equals(Expect.seen(lane)));
+        expect.holds("the state of slot 1", second.equals(Expect.seen(lane)));
         lane.begin();
         expect.same("save(1) over it", 0, lane.save(1));
         expect.same("undo of begin behind save", 0, lane.undo());
@@ -71,6 +82,7 @@ public final class SlotTest {
 
     public static void main(String[] args) {
         saveAndRestore();
+        saveAgain();
         restoreTheEnd();
         throwing();
         expect.end();

@@ -3,16 +3,15 @@ public final class WouldTest {
     private static final Expect expect = new Expect("WouldTest");
 
     private static void balls(PinDeck lane, int board, int drift, int... due) {
-        String before = Expect.seen(lane);
         for (int what = 0; what < 4; what++) {
             expect.same("would(" + board + ", " + drift + ", " + what + ")", due[what],
                     lane.would(board, drift, what));
         }
-        expect.holds("would changes nothing", before.equals(Expect.seen(lane)));
     }
 
     private static void would() {
         PinDeck lane = new PinDeck();
+        String before = Expect.seen(lane);
         balls(lane, 20, 0, 407, 40, 6, 0);
         balls(lane, 24, 0, 292, 529, 3, 0);
         balls(lane, 14, 2, 154, 320, 5, 1);
@@ -20,6 +19,7 @@ public final class WouldTest {
         balls(lane, 20, -2, 155, 324, 6, 1);
         balls(lane, 0, 0, 0, 0, 0, 0);
         balls(lane, 40, -2, 0, 0, 0, 0);
+        expect.equal("the states behind would", before, Expect.seen(lane));
         lane.touch(1, 2);
         lane.touch(3, 2);
         balls(lane, 23, 2, 559, 336, 6, 0);
