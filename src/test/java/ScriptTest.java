@@ -1,6 +1,15 @@
+import java.util.function.Consumer;
+
 /** Promises 21 and 22: runScript, simulate. */
 public final class ScriptTest {
     private static final Expect expect = new Expect("ScriptTest");
+
+    /** Does scripts, and then looks whether the lane is as it was. */
+    private static void changesNothing(PinDeck lane, Consumer<PinDeck> scripts) {
+        String before = Expect.seen(lane);
+        scripts.accept(lane);
+        expect.equal("the states", before, Expect.seen(lane));
+    }
 
     private static void script(PinDeck lane, int n, long script, int due) {
         expect.same("runScript(" + n + ", " + script + ")", due, lane.runScript(n, script));
@@ -12,8 +21,7 @@ public final class ScriptTest {
         }
     }
 
-    private static void groups() {
-        PinDeck lane = new PinDeck();
+    private static void groups(PinDeck lane) {
         each(lane, PinDeck.NONE, 12020, 10000, 14040, 13920, 24020, 23920, 22020, 20040, 30000, 39300, 40030,
                 40900, 41000, 41030, 42030, 42000, 50000, 60010, 60011, 60099, 70000, 79000, 80000, 90000, 99000);
         each(lane, 0, 0, 9999, 1, 12021, 14120, 19920, 12050, 12090, 24120, 22021, 22050, 30400, 30010, 30001, 30009,
@@ -22,9 +30,7 @@ public final class ScriptTest {
                 90010, 90100, 90009);
     }
 
-    private static void sequences() {
-        PinDeck lane = new PinDeck();
-        String before = Expect.seen(lane);
+    private static void sequences(PinDeck lane) {
         script(lane, 2, 1202060002L, PinDeck.NONE);
         script(lane, 2, 1202060001L, 1);
         script(lane, 3, 120206000270400L, PinDeck.NONE);
@@ -50,12 +56,9 @@ public final class ScriptTest {
         script(lane, 2, 5000000000L, 1);
         script(lane, 3, 500005000099999L, 2);
         script(lane, 3, 999999999999999L, 0);
-        expect.equal("the states behind scripts", before, Expect.seen(lane));
     }
 
-    private static void speedAndRake() {
-        PinDeck lane = new PinDeck();
-        lane.set(0, 3);
+    private static void speedAndRake(PinDeck lane) {
         script(lane, 2, 1202060002L, PinDeck.NONE);
         script(lane, 2, 2202080000L, PinDeck.NONE);
     }
@@ -70,11 +73,12 @@ public final class ScriptTest {
         }
     }
 
-    private static void marks() {
-        PinDeck lane = Expect.after(10, 4, 6, 3);
+    private static void marks(PinDeck lane) {
         each(lane, PinDeck.NONE, 90001, 91002, 92000, 93000, 80036, 70400);
         each(lane, 0, 90000, 90002, 91001, 91000, 92001, 80037, 80100, 70300);
-        PinDeck over = Expect.after(10, 10, 10, 10, 10, 10, 10, 10, 10, 10, 10, 10);
+    }
+
+    private static void marksAtTheEnd(PinDeck over) {
         each(over, PinDeck.NONE, 80300, 99001, 60000, 79300, 30000, 50000);
         each(over, 0, 80301, 12020, 22020, 99000);
         script(over, 2, 5000012020L, PinDeck.NONE);
@@ -118,11 +122,14 @@ public final class ScriptTest {
     }
 
     public static void main(String[] args) {
-        groups();
-        sequences();
-        speedAndRake();
+        changesNothing(new PinDeck(), ScriptTest::groups);
+        changesNothing(new PinDeck(), ScriptTest::sequences);
+        PinDeck fast = new PinDeck();
+        fast.set(0, 3);
+        changesNothing(fast, ScriptTest::speedAndRake);
         drifts();
-        marks();
+        changesNothing(Expect.after(10, 4, 6, 3), ScriptTest::marks);
+        changesNothing(Expect.allStrikes(), ScriptTest::marksAtTheEnd);
         scriptThrows();
         simulate();
         expect.end();

@@ -1,6 +1,15 @@
+import java.util.function.Consumer;
+
 /** Promises 16 to 20: would, bestBoard, slowest, goesOn, drops. */
 public final class WouldTest {
     private static final Expect expect = new Expect("WouldTest");
+
+    /** Does what would be, and then looks whether the lane is as it was. */
+    private static void changesNothing(PinDeck lane, Consumer<PinDeck> body) {
+        String before = Expect.seen(lane);
+        body.accept(lane);
+        expect.equal("the states", before, Expect.seen(lane));
+    }
 
     private static void balls(PinDeck lane, int board, int drift, int... due) {
         for (int what = 0; what < 4; what++) {
@@ -11,15 +20,15 @@ public final class WouldTest {
 
     private static void would() {
         PinDeck lane = new PinDeck();
-        String before = Expect.seen(lane);
-        balls(lane, 20, 0, 407, 40, 6, 0);
-        balls(lane, 24, 0, 292, 529, 3, 0);
-        balls(lane, 14, 2, 154, 320, 5, 1);
-        balls(lane, 20, 2, 309, 642, 6, 1);
-        balls(lane, 20, -2, 155, 324, 6, 1);
-        balls(lane, 0, 0, 0, 0, 0, 0);
-        balls(lane, 40, -2, 0, 0, 0, 0);
-        expect.equal("the states behind would", before, Expect.seen(lane));
+        changesNothing(lane, same -> {
+            balls(same, 20, 0, 407, 40, 6, 0);
+            balls(same, 24, 0, 292, 529, 3, 0);
+            balls(same, 14, 2, 154, 320, 5, 1);
+            balls(same, 20, 2, 309, 642, 6, 1);
+            balls(same, 20, -2, 155, 324, 6, 1);
+            balls(same, 0, 0, 0, 0, 0, 0);
+            balls(same, 40, -2, 0, 0, 0, 0);
+        });
         lane.touch(1, 2);
         lane.touch(3, 2);
         balls(lane, 23, 2, 559, 336, 6, 0);
@@ -29,8 +38,10 @@ public final class WouldTest {
         lane.set(0, 3);
         balls(lane, 0, 0, 0, 10, 2, 2);
         lane.roll(20, 0, 30, false);
-        balls(lane, 20, 0, 0, 0, 0, 0);
-        balls(lane, 30, 0, 512, 0, 1, 0);
+        changesNothing(lane, same -> {
+            balls(same, 20, 0, 0, 0, 0, 0);
+            balls(same, 30, 0, 512, 0, 1, 0);
+        });
         expect.badArgument("would(-1, 0, 0)", () -> lane.would(-1, 0, 0));
         expect.badArgument("would(41, 0, 0)", () -> lane.would(41, 0, 0));
         expect.badArgument("would(20, -3, 0)", () -> lane.would(20, -3, 0));
@@ -44,7 +55,7 @@ public final class WouldTest {
         PinDeck lane = new PinDeck();
         lane.touch(1, 3);
         Expect.beside(lane, false);
-        balls(lane, 23, 0, 293, 528, 4, 0);
+        changesNothing(lane, same -> balls(same, 23, 0, 293, 528, 4, 0));
     }
 
     /** Pins not told as standing that have not fallen are there only behind the last roll. */
@@ -52,8 +63,10 @@ public final class WouldTest {
         PinDeck lane = Expect.after(new int[19]);
         lane.touch(0, 3);
         Expect.beside(lane, false);
-        balls(lane, 0, 0, 0, 1, 0, 0);
-        balls(lane, 20, 0, 407, 40, 5, 0);
+        changesNothing(lane, same -> {
+            balls(same, 0, 0, 0, 1, 0, 0);
+            balls(same, 20, 0, 407, 40, 5, 0);
+        });
     }
 
     private static void bestBoard() {
