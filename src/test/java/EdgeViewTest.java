@@ -83,6 +83,13 @@ public final class EdgeViewTest {
             }
         }
         expect.same("about(6) as call 512", CALLS - 1 - 24, games.about(6));
+        PinDeck dropped = new PinDeck();
+        for (int i = 0; i < 42; i++) {
+            Expect.touchAll(dropped, 2);
+            Expect.beside(dropped, false);
+            dropped.begin();
+        }
+        expect.same("about(5) as call 505", 420, dropped.about(5));
     }
 
     private static void none() {
