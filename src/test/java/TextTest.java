@@ -104,7 +104,7 @@ public final class TextTest {
     private static void loadMakesNew() {
         PinDeck lane = new PinDeck();
         lane.set(0, 90);
-        lane.set(1, 0);
+        lane.set(1, 3);
         lane.set(2, 3);
         lane.roll(20, 0, 30, true);
         lane.touch(6, 3);
